@@ -1,0 +1,131 @@
+/** The halts. Where the document is silent: what halts takes no cycle, and PC stays at it. */
+final class HaltTest extends TestBase {
+    private static final int FULL = 16;
+
+    public static void main(String[] args) {
+        noInstructionThere();
+        pushOnAFullStack();
+        callOnAFullStack();
+        interruptOnAFullStack();
+        popsFromAnEmptyStack();
+        nothingHappensThen();
+        haltedForGood();
+        sleepAtTheEndIsNoHalt();
+        interruptAtTheEndIsTaken();
+        end();
+    }
+
+    private static void dueHaltAt(String when, TickController x, int pc, int time) {
+        dueState(when, x, MODE, HALTED);
+        dueState(when, x, PC, pc);
+        dueState(when, x, TIME, time);
+    }
+
+    private static void noInstructionThere() {
+        TickController x = machine(LDI, 0, 1);
+        due("run over the end", x.run(10), 1);
+        dueHaltAt("run over the end", x, 1, 1);
+        TickController y = machine(JMP, 0, 40);
+        due("run beyond the end", y.run(10), 2);
+        dueHaltAt("run beyond the end", y, 40, 2);
+        TickController z = machine(LDI, 0, 200, PUSH, 0, 0, RET, 0, 0);
+        due("RET beyond the end", z.run(10), 6);
+        dueHaltAt("RET beyond the end", z, 200, 6);
+    }
+
+    private static TickController pusher() {
+        return machine(LDI, 0, FULL, PUSH, 0, 0, DJNZ, 0, 1, PUSH, 0, 0, JMP, 0, 3);
+    }
+
+    private static void pushOnAFullStack() {
+        TickController x = pusher();
+        int untilFull = 1 + FULL * 4 - 1;
+        pass(x, untilFull);
+        dueState("sixteen pushed", x, DEPTH, FULL);
+        dueState("sixteen pushed", x, MODE, RUNNING);
+        due("the seventeenth", x.run(10), 0);
+        dueHaltAt("the seventeenth", x, 3, untilFull);
+        dueState("the seventeenth", x, DEPTH, FULL);
+    }
+
+    private static void callOnAFullStack() {
+        TickController x = machine(CALL, 0, 0);
+        due("CALL without end", x.run(1000), 3 * FULL);
+        dueHaltAt("CALL without end", x, 0, 3 * FULL);
+        dueState("CALL without end", x, DEPTH, FULL);
+    }
+
+    private static void interruptOnAFullStack() {
+        TickController x = machine(program(code(LDI, 0, FULL, PUSH, 0, 0, DJNZ, 0, 1), out(SERIAL_CONTROL, 8),
+                code(SEI, 0, 0, LDI, 1, 1)));
+        x.vector(4, 6);
+        int time = 1 + FULL * 4 - 1 + 3;
+        pass(x, time);
+        x.receive(1);
+        due("interrupt on a full stack", x.run(10), 0);
+        dueHaltAt("interrupt on a full stack", x, 6, time);
+        dueState("interrupt on a full stack", x, DEPTH, FULL);
+        dueState("interrupt on a full stack", x, TAKEN, 0);
+        dueState("interrupt on a full stack", x, FLAGS, I);
+        duePort("interrupt on a full stack", x, PENDING, 0);
+    }
+
+    private static void popsFromAnEmptyStack() {
+        int[] ops = {POP, RET, RETI};
+        for (int op : ops) {
+            TickController x = machine(LDI, 3, 9, op, 3, 0, LDI, 3, 1);
+            due("operation " + op + " on an empty stack", x.run(10), 1);
+            dueHaltAt("operation " + op + " on an empty stack", x, 1, 1);
+            dueState("operation " + op + " on an empty stack", x, FLAGS, 0);
+            dueState("operation " + op + " on an empty stack", x, DEPTH, 0);
+            dueRegister("operation " + op + " on an empty stack", x, 3, 9);
+        }
+    }
+
+    private static void nothingHappensThen() {
+        TickController x = machine(program(out(SERIAL_CONTROL, 8), out(WATCHDOG, 1), out(A_CONTROL, 1),
+                out(SERIAL_DATA, 5), code(SEI, 0, 0)));
+        x.run(100);
+        dueState("halted", x, MODE, HALTED);
+        x.receive(1);
+        for (int k = 0; k < 5; k++) {
+            due("halted: run(100)", x.run(100), 0);
+        }
+        dueHaltAt("halted", x, 9, 9);
+        dueState("halted", x, TAKEN, 0);
+        dueState("halted", x, RESETS, 0);
+        duePort("halted", x, A_COUNT, 4);
+        due("halted: sent()", x.sent(), 0);
+    }
+
+    private static void haltedForGood() {
+        TickController x = machine(POP, 0, 0);
+        x.run(1);
+        x.load(LDI, 0, 1);
+        x.pins(1);
+        x.vector(0, 1);
+        due("halted for good", x.run(5), 0);
+        dueState("halted for good", x, MODE, HALTED);
+        x.power();
+        dueState("until power", x, MODE, RUNNING);
+    }
+
+    private static void sleepAtTheEndIsNoHalt() {
+        TickController x = machine(SLEEP, 0, 0);
+        due("asleep at the end", x.run(50), 50);
+        dueState("asleep at the end", x, MODE, ASLEEP);
+        dueState("asleep at the end", x, PC, 1);
+    }
+
+    /** The document is silent here; interrupts are looked at before the instruction is. */
+    private static void interruptAtTheEndIsTaken() {
+        TickController x = machine(program(out(SERIAL_CONTROL, 8), code(JMP, 0, 5, LDI, 0, 3, RETI, 0, 0,
+                SEI, 0, 0)));
+        x.vector(4, 3);
+        x.receive(1);
+        due("interrupt at the end", x.run(100), 2 + 2 + 1 + 3 + 1 + 3);
+        dueState("interrupt at the end", x, TAKEN, 1);
+        dueRegister("interrupt at the end", x, 0, 3);
+        dueHaltAt("interrupt at the end", x, 6, 12);
+    }
+}

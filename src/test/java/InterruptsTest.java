@@ -1,0 +1,210 @@
+/** Interrupts and sleep. */
+final class InterruptsTest extends TestBase {
+    public static void main(String[] args) {
+        takingOne();
+        returningFromOne();
+        notWithoutI();
+        notWithoutEnabling();
+        pendingStaysUntilEnabled();
+        theLeastComesFirst();
+        notInsideAHandler();
+        nextOneRightAfterReti();
+        clearedOneIsNotTaken();
+        beforeEachInstruction();
+        sleepEndsWithAnInterrupt();
+        sleepWithoutI();
+        sleepWithOnePendingAlready();
+        sleepWithOneNotEnabled();
+        end();
+    }
+
+    /** T is 3 and I is 1 when it comes to the loop at 3; the handler is at 4. */
+    private static TickController waiting() {
+        TickController x = machine(program(out(SERIAL_CONTROL, 8),
+                code(SEI, 0, 0, JMP, 0, 3, LDI, 0, 5, RETI, 0, 0)));
+        x.vector(4, 4);
+        pass(x, 3);
+        return x;
+    }
+
+    private static void takingOne() {
+        TickController x = waiting();
+        x.receive(1);
+        duePort("before", x, PENDING, 16);
+        pass(x, 3);
+        int[] want = {4, 0, 1, RUNNING, 0, 1, 6, 0};
+        for (int what = 0; what <= 7; what++) {
+            dueState("an interrupt taken", x, what, want[what]);
+        }
+        duePort("an interrupt taken", x, PENDING, 0);
+    }
+
+    private static void returningFromOne() {
+        TickController x = waiting();
+        pass(x, 4);
+        x.receive(1);
+        pass(x, 3 + 1 + 3);
+        dueState("RETI", x, PC, 3);
+        dueState("RETI", x, FLAGS, I);
+        dueState("RETI", x, DEPTH, 0);
+        dueRegister("RETI", x, 0, 5);
+    }
+
+    private static void notWithoutI() {
+        TickController x = machine(program(out(SERIAL_CONTROL, 8), code(SEI, 0, 0, CLI, 0, 0, JMP, 0, 4)));
+        pass(x, 4);
+        x.receive(1);
+        pass(x, 20);
+        dueState("I is 0", x, TAKEN, 0);
+        duePort("I is 0", x, PENDING, 16);
+    }
+
+    private static void notWithoutEnabling() {
+        TickController x = machine(program(out(SERIAL_CONTROL, 16), out(A_CONTROL, 24), out(CONVERTER, 8),
+                out(STORE_CONTROL, 8), out(MASK, 1), code(SEI, 0, 0, JMP, 0, 11)));
+        pass(x, 11);
+        x.receive(1);
+        pass(x, 20);
+        dueState("others are enabled", x, TAKEN, 0);
+        duePort("others are enabled", x, PENDING, 16);
+    }
+
+    private static void pendingStaysUntilEnabled() {
+        TickController x = machine(program(code(SEI, 0, 0, DJNZ, 0, 1), out(SERIAL_CONTROL, 8)));
+        x.vector(4, 30);
+        x.receive(1);
+        pass(x, 1 + 511 + 1);
+        dueState("not enabled", x, TAKEN, 0);
+        pass(x, 1);
+        dueState("enabled", x, TAKEN, 0);
+        pass(x, 3);
+        dueState("taken", x, TAKEN, 1);
+        dueState("taken", x, PC, 30);
+    }
+
+    /** Five are pending when I becomes 1: 4 (reception), 5 (sent), 6 (converter), 7 (store) and 8 (pins). */
+    private static TickController fivePending() {
+        TickController x = machine(program(out(SERIAL_CONTROL, 24), out(SERIAL_DATA, 1), out(CONVERTER, 12),
+                out(STORE_DATA, 1), out(STORE_CONTROL, 8), out(MASK, 128),
+                code(DJNZ, 0, 12, SEI, 0, 0, JMP, 0, 14, RETI, 0, 0)));
+        for (int k = 0; k <= 8; k++) {
+            x.vector(k, k == 5 ? 30 : 15);
+        }
+        pass(x, 12);
+        x.pins(128);
+        x.receive(1);
+        pass(x, 511 + 1);
+        duePort("five pending", x, PENDING, 16 + 32 + 64 + 128);
+        return x;
+    }
+
+    private static void theLeastComesFirst() {
+        TickController x = fivePending();
+        for (int k = 0; k <= 8; k++) {
+            x.vector(k, 15);
+        }
+        int[] left = {32 + 64 + 128, 64 + 128, 128, 0, 0};
+        for (int k = 0; k < 5; k++) {
+            pass(x, 3);
+            dueState("taken in order", x, TAKEN, k + 1);
+            dueState("taken in order", x, PC, 15);
+            dueState("taken in order", x, DEPTH, 1);
+            duePort("taken in order", x, PENDING, left[k]);
+            pass(x, 3);
+            dueState("returned", x, PC, 14);
+        }
+        pass(x, 2);
+        dueState("all taken", x, TAKEN, 5);
+    }
+
+    private static void notInsideAHandler() {
+        TickController x = waiting();
+        x.receive(1);
+        pass(x, 3);
+        x.receive(2);
+        pass(x, 1);
+        dueState("inside the handler", x, TAKEN, 1);
+        dueState("inside the handler", x, PC, 5);
+    }
+
+    /** Between RETI and the next interrupt no instruction is carried out. */
+    private static void nextOneRightAfterReti() {
+        TickController x = fivePending();
+        x.vector(5, 30);
+        pass(x, 3 + 3 + 3);
+        dueState("right after RETI", x, TAKEN, 2);
+        dueState("right after RETI", x, PC, 30);
+    }
+
+    private static void clearedOneIsNotTaken() {
+        TickController x = machine(program(out(SERIAL_CONTROL, 8), out(PENDING, 16), code(SEI, 0, 0, JMP, 0, 5)));
+        x.receive(1);
+        pass(x, 5 + 10);
+        dueState("cleared before SEI", x, TAKEN, 0);
+    }
+
+    /** The timer's count comes to 3 in the middle of CALL's three cycles. */
+    private static void beforeEachInstruction() {
+        TickController x = machine(program(out(A_COMPARE, 3), out(A_CONTROL, 9),
+                code(SEI, 0, 0, CALL, 0, 6, LDI, 0, 1, LDI, 1, 1)));
+        x.vector(0, 20);
+        pass(x, 5 + 3 + 3);
+        dueState("in the middle of CALL", x, PC, 20);
+        dueState("in the middle of CALL", x, DEPTH, 2);
+        dueRegister("in the middle of CALL", x, 0, 0);
+    }
+
+    private static TickController sleeping(int flag) {
+        TickController x = machine(program(out(SERIAL_CONTROL, 8),
+                code(flag, 0, 0, SLEEP, 0, 0, LDI, 1, 1, JMP, 0, 5, LDI, 0, 5, RETI, 0, 0)));
+        x.vector(4, 6);
+        return x;
+    }
+
+    private static void sleepEndsWithAnInterrupt() {
+        TickController x = sleeping(SEI);
+        pass(x, 100);
+        dueState("asleep", x, MODE, ASLEEP);
+        dueState("asleep", x, PC, 4);
+        x.receive(1);
+        pass(x, 3);
+        dueState("awake", x, MODE, RUNNING);
+        dueState("awake", x, PC, 6);
+        pass(x, 1 + 3 + 1);
+        dueState("awake after the handler", x, MODE, RUNNING);
+        dueRegister("awake after the handler", x, 1, 1);
+    }
+
+    private static void sleepWithoutI() {
+        TickController x = sleeping(CLI);
+        pass(x, 10);
+        x.receive(1);
+        pass(x, 1000);
+        dueState("asleep without I", x, MODE, ASLEEP);
+        dueState("asleep without I", x, TAKEN, 0);
+    }
+
+    private static void sleepWithOnePendingAlready() {
+        TickController x = machine(program(out(A_COMPARE, 2), out(A_CONTROL, 9), code(SEI, 0, 0, SLEEP, 0, 0)));
+        x.vector(0, 20);
+        pass(x, 5);
+        due("pending before SLEEP", x.run(1), 3);
+        dueState("pending before SLEEP", x, PC, 20);
+
+        TickController y = sleeping(SEI);
+        pass(y, 3);
+        pass(y, 1);
+        dueState("SLEEP", y, MODE, ASLEEP);
+        y.receive(1);
+        due("before the first cycle asleep", y.run(1), 3);
+        dueState("before the first cycle asleep", y, TIME, 7);
+    }
+
+    private static void sleepWithOneNotEnabled() {
+        TickController x = machine(SEI, 0, 0, SLEEP, 0, 0);
+        x.receive(1);
+        pass(x, 100);
+        dueState("not enabled", x, MODE, ASLEEP);
+        duePort("not enabled", x, PENDING, 16);
+    }
+}

@@ -1,0 +1,112 @@
+/** Promise 5: run. */
+final class RunTest extends TestBase {
+    public static void main(String[] args) {
+        wrongNumbersDoNothing();
+        edgesOfTheNumber();
+        passesAtLeastSoMany();
+        anInterruptIsAStepOfItsOwn();
+        cyclesAsleepPassOneByOne();
+        answersLessIfHalted();
+        haltedAnswersZero();
+        wrongNumbersWhileHalted();
+        goesOnWhereItStood();
+        manyRunsCountOn();
+        end();
+    }
+
+    private static TickController threeCycleLoop() {
+        return machine(CALL, 0, 1, RET, 0, 0);
+    }
+
+    private static void wrongNumbersDoNothing() {
+        int[] wrongOnes = {0, -1, 3001, Integer.MAX_VALUE, Integer.MIN_VALUE};
+        for (int n : wrongOnes) {
+            TickController x = machine(LDI, 0, 5, JMP, 0, 1);
+            due("run(" + n + ")", x.run(n), -1);
+            dueAsAtPower("after run(" + n + ")", x);
+        }
+    }
+
+    private static void edgesOfTheNumber() {
+        TickController x = machine(LDI, 0, 5, SLEEP, 0, 0);
+        due("run(1)", x.run(1), 1);
+        dueState("run(1)", x, PC, 1);
+        due("run(3000)", x.run(3000), 3000);
+        dueState("run(3000)", x, TIME, 3001);
+    }
+
+    private static void passesAtLeastSoMany() {
+        TickController x = threeCycleLoop();
+        due("run(1) at a CALL", x.run(1), 3);
+        due("run(2) at a RET", x.run(2), 3);
+        dueState("after CALL and RET", x, PC, 1);
+        TickController y = machine(LDI, 0, 1, JMP, 0, 1);
+        due("run(2) over LDI and JMP", y.run(2), 3);
+        due("run(4) over two JMPs", y.run(4), 4);
+        due("run(5) over three JMPs", y.run(5), 6);
+    }
+
+    private static void anInterruptIsAStepOfItsOwn() {
+        TickController x = machine(program(out(SERIAL_CONTROL, 8), code(SEI, 0, 0, LDI, 0, 1, LDI, 0, 2)));
+        x.vector(4, 4);
+        pass(x, 3);
+        x.receive(9);
+        due("run(1) at an interrupt", x.run(1), 3);
+        dueState("run(1) at an interrupt", x, PC, 4);
+        dueRegister("run(1) at an interrupt", x, 0, 0);
+        pass(x, 1);
+        dueRegister("after the interrupt", x, 0, 2);
+    }
+
+    private static void cyclesAsleepPassOneByOne() {
+        TickController x = machine(SLEEP, 0, 0);
+        for (int n = 1; n <= 50; n++) {
+            due("run(" + n + ") asleep", x.run(n), n);
+        }
+        dueState("asleep", x, TIME, 50 * 51 / 2);
+    }
+
+    private static void answersLessIfHalted() {
+        TickController x = machine(LDI, 0, 1, ST, 0, 1, LDI, 0, 2);
+        due("run(100) of four cycles", x.run(100), 4);
+        dueState("run(100) of four cycles", x, MODE, HALTED);
+        dueState("run(100) of four cycles", x, TIME, 4);
+        TickController y = machine(LDI, 0, 1, ST, 0, 1, LDI, 0, 2);
+        due("run(4) of four cycles", y.run(4), 4);
+        dueState("run(4) of four cycles", y, MODE, RUNNING);
+        due("run(1) at the end", y.run(1), 0);
+        dueState("run(1) at the end", y, MODE, HALTED);
+    }
+
+    private static void haltedAnswersZero() {
+        TickController x = machine(LDI, 0, 1);
+        x.run(3);
+        due("run of a halted one", x.run(3000), 0);
+        dueState("run of a halted one", x, TIME, 1);
+    }
+
+    private static void wrongNumbersWhileHalted() {
+        TickController x = new TickController();
+        x.run(1);
+        due("run(0) of a halted one", x.run(0), -1);
+        due("run(3001) of a halted one", x.run(3001), -1);
+    }
+
+    private static void goesOnWhereItStood() {
+        TickController x = machine(LDI, 0, 1, LDI, 0, 2, LDI, 0, 3, LDI, 0, 4);
+        for (int k = 1; k <= 4; k++) {
+            pass(x, 1);
+            dueRegister("step " + k, x, 0, k);
+            dueState("step " + k, x, PC, k);
+        }
+    }
+
+    private static void manyRunsCountOn() {
+        TickController x = machine(SLEEP, 0, 0);
+        for (int k = 1; k <= 400; k++) {
+            pass(x, 3000);
+        }
+        dueState("400 runs", x, TIME, 1200000);
+        duePort("400 runs", x, CLOCK, 1200000 & 255);
+    }
+}

@@ -1,0 +1,100 @@
+/** What the tests share: the names of instructions and ports, and the counting of wrong answers. */
+abstract class TestBase {
+    static final int LDI = 0, MOV = 1, ADD = 2, SUB = 3, CMP = 4, AND = 5, XOR = 6, SHR = 7, LD = 8, ST = 9,
+            LDX = 10, STX = 11, IN = 12, OUT = 13, JMP = 14, JZ = 15, JC = 16, CALL = 17, RET = 18, PUSH = 19,
+            POP = 20, RETI = 21, SEI = 22, CLI = 23, SLEEP = 24, WDR = 25, DJNZ = 26;
+
+    static final int A_COUNT = 0, A_CONTROL = 1, A_COMPARE = 2, B_COUNT = 3, B_CONTROL = 4, B_COMPARE = 5,
+            SERIAL_DATA = 6, SERIAL_CONTROL = 7, DIVIDER = 8, CONVERTER = 9, RESULT = 10, PENDING = 11,
+            OUTPUT = 12, INPUT = 13, WATCHDOG = 14, CLOCK = 15, STORE_ADDRESS = 16, STORE_DATA = 17,
+            STORE_CONTROL = 18, MASK = 19;
+
+    static final int PC = 0, FLAGS = 1, DEPTH = 2, MODE = 3, RESETS = 4, TAKEN = 5, TIME = 6, EDGES = 7;
+    static final int RUNNING = 0, ASLEEP = 1, HALTED = 2;
+    static final int Z = 1, C = 2, I = 4;
+
+    private static int wrong = 0;
+
+    static void due(String what, int got, int want) {
+        if (got != want) {
+            wrong++;
+            System.out.println(what + " answered " + got + ", due is " + want);
+        }
+    }
+
+    static void due(String what, boolean got, boolean want) {
+        due(what, got ? 1 : 0, want ? 1 : 0);
+    }
+
+    static void end() {
+        if (wrong != 0) {
+            System.exit(1);
+        }
+    }
+
+    /** A new object with a program, three numbers an instruction. */
+    static TickController machine(int... program) {
+        TickController x = new TickController();
+        for (int k = 0; k < program.length; k += 3) {
+            x.load(program[k], program[k + 1], program[k + 2]);
+        }
+        return x;
+    }
+
+    /** Puts a value into a port through register 7: two cycles, and the port's cycle is the second. */
+    static int[] out(int port, int value) {
+        return new int[] {LDI, 7, value, OUT, 7, port};
+    }
+
+    /** One program out of several pieces. */
+    static int[] program(int[]... pieces) {
+        return java.util.Arrays.stream(pieces).flatMapToInt(java.util.Arrays::stream).toArray();
+    }
+
+    static int[] code(int... instructions) {
+        return instructions;
+    }
+
+    /** Lets n cycles pass, which must be exactly so many. */
+    static void pass(TickController x, int n) {
+        due("run(" + n + ")", x.run(n), n);
+    }
+
+    static void dueState(String when, TickController x, int what, int want) {
+        String[] names = {"PC", "flags", "stack depth", "mode", "resets", "interrupts taken", "T", "edges"};
+        due(when + ": " + names[what], x.state(what), want);
+    }
+
+    static void dueRegister(String when, TickController x, int r, int want) {
+        due(when + ": register " + r, x.register(r), want);
+    }
+
+    static void duePort(String when, TickController x, int p, int want) {
+        due(when + ": port " + p, x.port(p), want);
+    }
+
+    /** All that power makes, but for the program, vectors, store, analog values and input pins. */
+    static void dueAsAtPower(String when, TickController x) {
+        for (int what = 0; what <= 7; what++) {
+            dueState(when, x, what, 0);
+        }
+        for (int r = 0; r < 8; r++) {
+            dueRegister(when, x, r, 0);
+        }
+        for (int m = 0; m < 32; m++) {
+            due(when + ": memory " + m, x.memory(m), 0);
+        }
+        duePortsAsAtPower(when, x);
+        due(when + ": sent()", x.sent(), 0);
+        due(when + ": line(0)", x.line(0), -1);
+    }
+
+    /** The ports that power and a reset by the watchdog make what they were; pins, T and the store's data go on. */
+    static void duePortsAsAtPower(String when, TickController x) {
+        for (int p = 0; p <= 19; p++) {
+            if (p != OUTPUT && p != INPUT && p != CLOCK && p != STORE_DATA) {
+                duePort(when, x, p, p == SERIAL_CONTROL || p == STORE_CONTROL ? 1 : 0);
+            }
+        }
+    }
+}
