@@ -139,16 +139,16 @@ final class BeginningTest extends TestBase {
         }
     }
 
-    /** A machine with next to nothing as it was at power; it sleeps from T = 1070 on. */
+    /** A machine with next to nothing as it was at power; it sleeps from T = 1073 on. */
     private static TickController busyMachine() {
         TickController x = machine(program(
                 out(A_COUNT, 5), out(A_COMPARE, 9), out(A_CONTROL, 1), out(B_COUNT, 6), out(B_COMPARE, 20),
                 out(B_CONTROL, 1), out(DIVIDER, 1), out(SERIAL_DATA, 77), out(OUTPUT, 5), out(CONVERTER, 6),
                 out(STORE_ADDRESS, 3), out(STORE_DATA, 44), out(STORE_CONTROL, 8), out(SERIAL_CONTROL, 24),
-                out(MASK, 255), out(WATCHDOG, 7), code(ST, 7, 31, LDI, 6, 1, SHR, 6, 0, PUSH, 7, 0, SEI, 0, 0,
-                DJNZ, 1, 37, SEI, 0, 0, SLEEP, 0, 0)));
+                out(MASK, 255), out(WATCHDOG, 7), code(ST, 7, 31, ST, 7, 0, MOV, 0, 7, LDI, 6, 1, SHR, 6, 0,
+                PUSH, 7, 0, SEI, 0, 0, DJNZ, 1, 39, SEI, 0, 0, SLEEP, 0, 0)));
         for (int k = 0; k <= 8; k++) {
-            x.vector(k, 37);
+            x.vector(k, 39);
         }
         return x;
     }
@@ -158,12 +158,14 @@ final class BeginningTest extends TestBase {
         pass(x, 1200);
         x.receive(12);
         x.receive(13);
-        int[] states = {40, Z + C + I, 3, ASLEEP, 0, 2, 1200, 2};
+        int[] states = {42, Z + C + I, 3, ASLEEP, 0, 2, 1200, 2};
         for (int what = 0; what <= 7; what++) {
             dueState("before power", x, what, states[what]);
         }
         due("before power: sent", x.sent(), 1);
         due("before power: memory 31", x.memory(31), 7);
+        due("before power: memory 0", x.memory(0), 7);
+        dueRegister("before power", x, 0, 7);
         x.power();
         dueAsAtPower("power again", x);
         duePort("power again", x, OUTPUT, 0);
@@ -178,14 +180,14 @@ final class BeginningTest extends TestBase {
         x.power();
         duePort("power again", x, INPUT, 170);
         due("power again: stored(3)", x.stored(3), 44);
-        due("power again: load", x.load(LDI, 0, 0), 40);
+        due("power again: load", x.load(LDI, 0, 0), 42);
         pass(x, 1200);
         duePort("power again, program anew", x, RESULT, 200);
         due("power again, program anew: line(0)", x.line(0), 77);
         due("power again, program anew: sent()", x.sent(), 1);
         x.receive(1);
         pass(x, 3);
-        dueState("power again, vector kept", x, PC, 37);
+        dueState("power again, vector kept", x, PC, 39);
         dueState("power again, vector kept", x, TAKEN, 3);
     }
 

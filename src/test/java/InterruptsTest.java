@@ -10,6 +10,7 @@ final class InterruptsTest extends TestBase {
         notInsideAHandler();
         nextOneRightAfterReti();
         clearedOneIsNotTaken();
+        comingAgainStaysPending();
         beforeEachInstruction();
         sleepEndsWithAnInterrupt();
         sleepWithoutI();
@@ -141,6 +142,20 @@ final class InterruptsTest extends TestBase {
         x.receive(1);
         pass(x, 5 + 10);
         dueState("cleared before SEI", x, TAKEN, 0);
+    }
+
+    /** All that the port shows comes twice until T = 701 (the timers at 257 and 513), and is never cleared. */
+    private static void comingAgainStaysPending() {
+        TickController x = machine(program(out(A_CONTROL, 1), out(B_CONTROL, 1), code(IN, 0, SERIAL_DATA),
+                out(SERIAL_DATA, 1), out(CONVERTER, 4), out(STORE_DATA, 1), code(DJNZ, 1, 11, JMP, 0, 4)));
+        x.receive(1);
+        x.run(400);
+        duePort("come once", x, PENDING, 255);
+        x.receive(2);
+        duePort("come again", x, PENDING, 255);
+        x.run(300);
+        duePort("come again", x, PENDING, 255);
+        due("sent again", x.sent(), 2);
     }
 
     /** The timer's count comes to 3 in the middle of CALL's three cycles. */

@@ -1,6 +1,6 @@
 /** Promise 5: run. */
 final class RunTest extends TestBase {
-    public static void main(String[] args) {
+    public static void main(String[] args) throws ReflectiveOperationException {
         wrongNumbersDoNothing();
         edgesOfTheNumber();
         passesAtLeastSoMany();
@@ -11,6 +11,7 @@ final class RunTest extends TestBase {
         wrongNumbersWhileHalted();
         goesOnWhereItStood();
         manyRunsCountOn();
+        greatestTime();
         end();
     }
 
@@ -108,5 +109,16 @@ final class RunTest extends TestBase {
         }
         dueState("400 runs", x, TIME, 1200000);
         duePort("400 runs", x, CLOCK, 1200000 & 255);
+    }
+
+    /** So great a T is beyond what 512 calls can reach, so it is put into the object. */
+    private static void greatestTime() throws ReflectiveOperationException {
+        TickController x = machine(SLEEP, 0, 0);
+        java.lang.reflect.Field time = TickController.class.getDeclaredField("time");
+        time.setAccessible(true);
+        time.setInt(x, 1000000000);
+        due("run(1) at the greatest T", x.run(1), 1);
+        due("run(1) above it", x.run(1), -1);
+        dueState("run(1) above it", x, TIME, 1000000001);
     }
 }

@@ -1,0 +1,155 @@
+import com.sun.source.tree.*;
+import com.sun.source.util.JavacTask;
+import com.sun.source.util.TreeScanner;
+import java.lang.reflect.Method;
+import java.lang.reflect.Modifier;
+import java.nio.file.Path;
+import java.util.Arrays;
+import java.util.EnumSet;
+import java.util.HashMap;
+import java.util.HashSet;
+import java.util.Map;
+import java.util.Set;
+import java.util.TreeSet;
+import javax.tools.JavaCompiler;
+import javax.tools.ToolProvider;
+
+/** The document's public face, and the rules of LANGUAGE.md that can be seen in the program's text. */
+final class LanguageTest extends TestBase {
+    private static final String SOURCE = "src/main/java/TickController.java";
+    private static final Set<String> FACE = Set.of("int load(int,int,int)", "boolean vector(int,int)",
+            "void power()", "int run(int)", "boolean pins(int)", "boolean analog(int,int)",
+            "boolean receive(int)", "int register(int)", "int memory(int)", "int port(int)", "int state(int)",
+            "int stored(int)", "int line(int)", "int sent()");
+    private static final Set<Tree.Kind> FORBIDDEN = EnumSet.of(Tree.Kind.THROW, Tree.Kind.TRY,
+            Tree.Kind.SYNCHRONIZED, Tree.Kind.ASSERT, Tree.Kind.INSTANCE_OF, Tree.Kind.LAMBDA_EXPRESSION,
+            Tree.Kind.MEMBER_REFERENCE, Tree.Kind.NEW_CLASS, Tree.Kind.NULL_LITERAL, Tree.Kind.STRING_LITERAL,
+            Tree.Kind.FLOAT_LITERAL, Tree.Kind.DOUBLE_LITERAL, Tree.Kind.MEMBER_SELECT, Tree.Kind.IMPORT,
+            Tree.Kind.INTERFACE, Tree.Kind.ENUM, Tree.Kind.RECORD);
+    private static final Set<String> TYPES = Set.of("int", "long", "short", "byte", "char", "boolean", "int[]",
+            "long[]", "short[]", "byte[]", "char[]", "boolean[]");
+
+    public static void main(String[] args) throws java.io.IOException {
+        publicFace();
+        CompilationUnitTree unit = parse();
+        due("classes in the file", unit.getTypeDecls().size(), 1);
+        due("rule 1: no package", unit.getPackageName() == null, true);
+        Rules rules = new Rules();
+        rules.scan(unit, null);
+        due("rule 10: some forty fields", rules.fields <= 40, true);
+        callsEndAndStayFlat(rules.calls);
+        end();
+    }
+
+    private static CompilationUnitTree parse() throws java.io.IOException {
+        JavaCompiler compiler = ToolProvider.getSystemJavaCompiler();
+        var files = compiler.getStandardFileManager(null, null, null).getJavaFileObjects(Path.of(SOURCE));
+        JavacTask task = (JavacTask) compiler.getTask(null, null, null, null, null, files);
+        return task.parse().iterator().next();
+    }
+
+    private static void publicFace() {
+        Set<String> seen = new TreeSet<>();
+        Set<String> hidden = new HashSet<>();
+        for (Method m : TickController.class.getDeclaredMethods()) {
+            String parameters = String.join(",", Arrays.stream(m.getParameterTypes()).map(Class::getName).toList());
+            if (Modifier.isPrivate(m.getModifiers())) {
+                hidden.add(m.getName());
+            } else {
+                seen.add(m.getReturnType() + " " + m.getName() + "(" + parameters + ")");
+            }
+        }
+        due("rule 1: methods " + seen, seen.equals(new TreeSet<>(FACE)), true);
+        for (String name : hidden) {
+            due("rule 1: private " + name, FACE.stream().anyMatch(f -> f.contains(" " + name + "(")), false);
+        }
+        due("rule 1: final", Modifier.isFinal(TickController.class.getModifiers()), true);
+        due("rule 1: one public constructor", TickController.class.getConstructors().length, 1);
+        due("rule 1: no other constructor", TickController.class.getDeclaredConstructors().length, 1);
+        for (var f : TickController.class.getDeclaredFields()) {
+            due("rule 1: private " + f.getName(), Modifier.isPrivate(f.getModifiers()), true);
+            boolean constant = Modifier.isFinal(f.getModifiers()) && !f.getType().isArray();
+            due("rule 5: static " + f.getName(), !Modifier.isStatic(f.getModifiers()) || constant, true);
+        }
+    }
+
+    /** Rules 8 and 10: takes away, level by level, the methods that call none of those left. */
+    private static void callsEndAndStayFlat(Map<String, Set<String>> calls) {
+        int levels = 0;
+        while (!calls.isEmpty() && levels < 100) {
+            Set<String> leaves = new HashSet<>();
+            calls.forEach((name, called) -> {
+                if (called.stream().noneMatch(calls::containsKey)) {
+                    leaves.add(name);
+                }
+            });
+            calls.keySet().removeAll(leaves);
+            levels++;
+        }
+        due("rule 8: methods in a ring of calls", calls.size(), 0);
+        due("rule 10: calls go " + levels + " deep", levels <= 6, true);
+    }
+
+    /** Walks over the whole file; method is the name of the one that it is in, or empty. */
+    private static final class Rules extends TreeScanner<Void, Void> {
+        final Map<String, Set<String>> calls = new HashMap<>();
+        int fields = 0;
+        private String method = "";
+        private int classes = 0;
+        private int inArguments = 0;
+
+        @Override
+        public Void scan(Tree tree, Void none) {
+            if (tree != null && FORBIDDEN.contains(tree.getKind())) {
+                due("rules 2, 3, 6: " + tree.getKind() + " " + tree, 1, 0);
+            }
+            return super.scan(tree, none);
+        }
+
+        @Override
+        public Void visitClass(ClassTree tree, Void none) {
+            classes++;
+            due("rule 1: class " + tree.getSimpleName() + " is number", classes, 1);
+            return super.visitClass(tree, none);
+        }
+
+        @Override
+        public Void visitMethod(MethodTree tree, Void none) {
+            method = tree.getName().toString();
+            calls.put(method, new HashSet<>());
+            due("rule 10: parameters of " + method, tree.getParameters().size() <= 7, true);
+            String text = tree.getBody().toString();
+            due("rule 10: length of " + method, text.lines().count() <= 60, true);
+            super.visitMethod(tree, none);
+            method = "";
+            return null;
+        }
+
+        @Override
+        public Void visitVariable(VariableTree tree, Void none) {
+            due("rule 2: type of " + tree.getName(), TYPES.contains(tree.getType().toString()), true);
+            boolean constant = tree.getModifiers().getFlags().contains(javax.lang.model.element.Modifier.STATIC);
+            fields += method.isEmpty() && !constant ? 1 : 0;
+            return super.visitVariable(tree, none);
+        }
+
+        @Override
+        public Void visitNewArray(NewArrayTree tree, Void none) {
+            due("rule 4: array made in " + method, method.isEmpty(), true);
+            due("rule 4: one dimension", tree.getDimensions().size(), 1);
+            return super.visitNewArray(tree, none);
+        }
+
+        @Override
+        public Void visitMethodInvocation(MethodInvocationTree tree, Void none) {
+            if (calls.containsKey(method)) {
+                calls.get(method).add(tree.getMethodSelect().toString());
+            }
+            due("rule 10: call inside the arguments of another one, " + tree, inArguments > 0, false);
+            inArguments++;
+            super.visitMethodInvocation(tree, none);
+            inArguments--;
+            return null;
+        }
+    }
+}

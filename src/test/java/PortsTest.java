@@ -1,0 +1,114 @@
+/** Which ports keep what is written, and which don't. */
+final class PortsTest extends TestBase {
+    public static void main(String[] args) {
+        writtenAndRead();
+        portsWithoutEffectOfOut();
+        portsAboveNineteen();
+        pendingPort();
+        pendingPortLeavesEight();
+        clockPort();
+        inGivesWhatPortAnswers();
+        end();
+    }
+
+    private static void writtenAndRead() {
+        int[] whole = {A_COUNT, A_CONTROL, A_COMPARE, B_COUNT, B_CONTROL, B_COMPARE, DIVIDER, OUTPUT, WATCHDOG,
+            MASK};
+        for (int p : whole) {
+            dueWritten(p, 0xC0, 0xC0);
+            dueWritten(p, 0x18, 0x18);
+        }
+        dueWritten(SERIAL_CONTROL, 255, 24 + 1);
+        dueWritten(SERIAL_CONTROL, 8, 8 + 1);
+        dueWritten(SERIAL_CONTROL, 16, 16 + 1);
+        dueWritten(SERIAL_CONTROL, 7, 1);
+        dueWritten(CONVERTER, 255, 255);
+        dueWritten(CONVERTER, 0xFB, 0xFB);
+        dueWritten(STORE_ADDRESS, 255, 15);
+        dueWritten(STORE_ADDRESS, 16 + 5, 5);
+        dueWritten(STORE_CONTROL, 255, 8 + 1);
+        dueWritten(STORE_CONTROL, 7, 1);
+    }
+
+    /** Writes to one port; it reads as due, and all others but the clock read as at power. */
+    private static void dueWritten(int p, int value, int want) {
+        TickController x = machine(out(p, value));
+        x.run(2);
+        duePort("written " + value, x, p, want);
+        for (int other = 0; other <= 19; other++) {
+            if (other != p && other != CLOCK) {
+                int power = other == SERIAL_CONTROL || other == STORE_CONTROL ? 1 : 0;
+                duePort("written " + value + " to " + p, x, other, power);
+            }
+        }
+    }
+
+    private static void portsWithoutEffectOfOut() {
+        int[] still = {RESULT, INPUT};
+        for (int p : still) {
+            TickController x = machine(program(out(p, 99)));
+            x.pins(p == INPUT ? 5 : 0);
+            x.run(2);
+            duePort("OUT", x, p, p == INPUT ? 5 : 0);
+        }
+        TickController x = machine(out(CLOCK, 99));
+        x.run(2);
+        duePort("OUT", x, CLOCK, 2);
+    }
+
+    private static void portsAboveNineteen() {
+        for (int p = 20; p < 32; p++) {
+            TickController x = machine(LDI, 0, 255, OUT, 0, p, IN, 0, p);
+            pass(x, 2);
+            duePortsAsAtPower("OUT to " + p, x);
+            duePort("OUT to " + p, x, OUTPUT, 0);
+            pass(x, 1);
+            dueRegister("IN of " + p, x, 0, 0);
+        }
+    }
+
+    /** Timers A and B make 0 to 3 pending, the call 4. */
+    private static void pendingPort() {
+        TickController x = machine(program(out(A_COUNT, 255), out(B_COUNT, 255), out(A_CONTROL, 1),
+                out(B_CONTROL, 1), code(IN, 1, PENDING), out(PENDING, 0b11000110), code(IN, 2, PENDING)));
+        x.receive(1);
+        x.run(12);
+        dueRegister("all of them", x, 1, 0b11111);
+        dueRegister("some of them cleared", x, 2, 0b11001);
+        duePort("some of them cleared", x, PENDING, 0b11001);
+    }
+
+    private static void pendingPortLeavesEight() {
+        TickController x = machine(program(out(MASK, 1), out(PENDING, 255), code(SEI, 0, 0, JMP, 0, 5)));
+        x.run(2);
+        x.pins(1);
+        duePort("interrupt 8", x, PENDING, 0);
+        pass(x, 3 + 3);
+        dueState("interrupt 8 after OUT of 255", x, TAKEN, 1);
+    }
+
+    private static void clockPort() {
+        TickController x = machine(SLEEP, 0, 0);
+        int[] ends = {1, 255, 256, 257, 600};
+        for (int time : ends) {
+            x.run(time - x.state(TIME));
+            duePort("T = " + time, x, CLOCK, time % 256);
+        }
+    }
+
+    private static void inGivesWhatPortAnswers() {
+        int[] setting = program(out(A_COUNT, 1), out(A_COMPARE, 2), out(B_COUNT, 3), out(B_COMPARE, 4),
+                out(SERIAL_CONTROL, 24), out(DIVIDER, 5), out(CONVERTER, 14), out(OUTPUT, 6), out(WATCHDOG, 7),
+                out(STORE_ADDRESS, 8), out(STORE_CONTROL, 8), out(MASK, 9));
+        for (int p = 0; p <= 19; p++) {
+            TickController x = machine(program(setting, code(IN, 0, p)));
+            x.pins(77);
+            x.receive(66);
+            x.receive(65);
+            x.run(24);
+            int answer = x.port(p);
+            x.run(1);
+            dueRegister("IN of port " + p, x, 0, answer);
+        }
+    }
+}

@@ -1,0 +1,100 @@
+/** The store. */
+final class StoreTest extends TestBase {
+    public static void main(String[] args) {
+        storingTime();
+        addressAndByteOfTheBeginning();
+        outWhileStoringDoesNothing();
+        outInTheVeryNextCycle();
+        dataReadsAtTheAddress();
+        interruptSeven();
+        outlastsAll();
+        end();
+    }
+
+    private static void storingTime() {
+        TickController x = machine(program(out(STORE_ADDRESS, 5), out(STORE_DATA, 77), code(SLEEP, 0, 0)));
+        pass(x, 3 + 39);
+        due("a cycle before: stored(5)", x.stored(5), 0);
+        duePort("a cycle before", x, STORE_DATA, 0);
+        duePort("a cycle before", x, STORE_CONTROL, 0);
+        duePort("a cycle before", x, PENDING, 0);
+        pass(x, 1);
+        due("stored(5)", x.stored(5), 77);
+        duePort("stored", x, STORE_DATA, 77);
+        duePort("stored", x, STORE_CONTROL, 1);
+        duePort("stored", x, PENDING, 128);
+        due("stored(0)", x.stored(0), 0);
+    }
+
+    private static void addressAndByteOfTheBeginning() {
+        TickController x = machine(program(out(STORE_ADDRESS, 5), out(STORE_DATA, 77), out(STORE_ADDRESS, 6),
+                code(SLEEP, 0, 0)));
+        pass(x, 100);
+        due("stored(5)", x.stored(5), 77);
+        due("stored(6)", x.stored(6), 0);
+        duePort("the new address", x, STORE_DATA, 0);
+    }
+
+    private static void outWhileStoringDoesNothing() {
+        TickController x = machine(program(out(STORE_DATA, 1), out(STORE_ADDRESS, 2), out(STORE_DATA, 3),
+                code(SLEEP, 0, 0)));
+        pass(x, 1 + 40);
+        due("the first", x.stored(0), 1);
+        pass(x, 100);
+        due("the second", x.stored(2), 0);
+        due("the first stays", x.stored(0), 1);
+    }
+
+    private static void outInTheVeryNextCycle() {
+        dueSecond("a cycle too early", 38, 1);
+        dueSecond("just in time", 39, 2);
+    }
+
+    private static void dueSecond(String when, int between, int want) {
+        TickController x = machine(LDI, 0, 1, OUT, 0, STORE_DATA);
+        for (int k = 0; k < between; k++) {
+            x.load(LDI, 0, 2);
+        }
+        x.load(OUT, 0, STORE_DATA);
+        x.load(SLEEP, 0, 0);
+        pass(x, 100);
+        due("second byte " + when, x.stored(0), want);
+    }
+
+    private static void dataReadsAtTheAddress() {
+        TickController x = machine(program(out(STORE_ADDRESS, 9), out(STORE_DATA, 44), code(DJNZ, 1, 4,
+                IN, 0, STORE_DATA), out(STORE_ADDRESS, 8), code(IN, 2, STORE_DATA), out(STORE_ADDRESS, 16 + 9),
+                code(IN, 3, STORE_DATA)));
+        x.run(3000);
+        dueRegister("at 9", x, 0, 44);
+        dueRegister("at 8", x, 2, 0);
+        dueRegister("at 25 & 15", x, 3, 44);
+    }
+
+    private static void interruptSeven() {
+        TickController x = machine(program(code(SEI, 0, 0), out(STORE_CONTROL, 8), out(STORE_DATA, 1),
+                code(SLEEP, 0, 0)));
+        x.vector(7, 20);
+        pass(x, 5);
+        duePort("storing", x, STORE_CONTROL, 8);
+        pass(x, 39 + 3);
+        dueState("enabled", x, PC, 20);
+        dueState("enabled", x, TAKEN, 1);
+        duePort("stored", x, STORE_CONTROL, 9);
+        TickController y = machine(program(code(SEI, 0, 0), out(STORE_CONTROL, 255 - 8), out(STORE_DATA, 1),
+                code(SLEEP, 0, 0)));
+        pass(y, 100);
+        dueState("not enabled", y, TAKEN, 0);
+        duePort("not enabled", y, PENDING, 128);
+    }
+
+    private static void outlastsAll() {
+        TickController x = machine(program(out(STORE_ADDRESS, 15), out(STORE_DATA, 31), out(WATCHDOG, 2),
+                code(SLEEP, 0, 0)));
+        pass(x, 80);
+        dueState("a reset", x, RESETS, 1);
+        due("after a reset: stored(15)", x.stored(15), 31);
+        x.power();
+        due("after power: stored(15)", x.stored(15), 31);
+    }
+}
