@@ -48,22 +48,14 @@ final class SerialTest extends TestBase {
         duePort("data reads as received", x, SERIAL_DATA, 0);
     }
 
-    /** The second OUT stands eight cycles after the first one's, when the byte is just on the line. */
+    /** The second OUT that counts stands eight cycles after the first, when the byte is just on the line. */
     private static void outInTheVeryNextCycle() {
-        dueSecond("a cycle too early", 6, 1);
-        dueSecond("just in time", 7, 2);
-    }
-
-    private static void dueSecond(String when, int between, int sent) {
-        TickController x = machine(LDI, 0, 1, OUT, 0, SERIAL_DATA);
-        for (int k = 0; k < between; k++) {
-            x.load(LDI, 0, 2);
-        }
-        x.load(OUT, 0, SERIAL_DATA);
-        x.load(SLEEP, 0, 0);
-        pass(x, 50);
-        due("second byte " + when, x.sent(), sent);
-        due("second byte " + when + ": line(1)", x.line(1), sent == 2 ? 2 : -1);
+        TickController early = outTwice(SERIAL_DATA, 6);
+        due("second byte a cycle too early: sent()", early.sent(), 1);
+        due("second byte a cycle too early: line(1)", early.line(1), -1);
+        TickController inTime = outTwice(SERIAL_DATA, 7);
+        due("second byte just in time: sent()", inTime.sent(), 2);
+        due("second byte just in time: line(1)", inTime.line(1), 2);
     }
 
     private static void sentInterrupt() {

@@ -46,19 +46,8 @@ final class StoreTest extends TestBase {
     }
 
     private static void outInTheVeryNextCycle() {
-        dueSecond("a cycle too early", 38, 1);
-        dueSecond("just in time", 39, 2);
-    }
-
-    private static void dueSecond(String when, int between, int want) {
-        TickController x = machine(LDI, 0, 1, OUT, 0, STORE_DATA);
-        for (int k = 0; k < between; k++) {
-            x.load(LDI, 0, 2);
-        }
-        x.load(OUT, 0, STORE_DATA);
-        x.load(SLEEP, 0, 0);
-        pass(x, 100);
-        due("second byte " + when, x.stored(0), want);
+        due("second byte a cycle too early", outTwice(STORE_DATA, 38).stored(0), 1);
+        due("second byte just in time", outTwice(STORE_DATA, 39).stored(0), 2);
     }
 
     private static void dataReadsAtTheAddress() {

@@ -55,6 +55,18 @@ abstract class TestBase {
         return instructions;
     }
 
+    /** Puts 1 into a port, then 2, with so many cycles between the two OUTs, and lets 100 cycles pass. */
+    static TickController outTwice(int port, int between) {
+        TickController x = machine(LDI, 0, 1, OUT, 0, port);
+        for (int k = 0; k < between; k++) {
+            x.load(LDI, 0, 2);
+        }
+        x.load(OUT, 0, port);
+        x.load(SLEEP, 0, 0);
+        pass(x, 100);
+        return x;
+    }
+
     /** Lets n cycles pass, which must be exactly so many. */
     static void pass(TickController x, int n) {
         due("run(" + n + ")", x.run(n), n);
