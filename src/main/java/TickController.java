@@ -269,15 +269,16 @@ public final class TickController {
         return enabled;
     }
 
+    /** A full stack halts before anything has changed: the interrupt isn't taken and stays pending. */
     private int takeInterrupt(int ready) {
+        if (stackDepth >= STACK_SIZE) {
+            return halt();
+        }
         int least = 0;
         while (least < INTERRUPTS - 1 && ((ready >> least) & 1) == 0) {
             least++;
         }
         pending &= ~(1 << least);
-        if (stackDepth >= STACK_SIZE) {
-            return halt();
-        }
         push(pc);
         interruptsAllowed = false;
         pc = vectors[least];

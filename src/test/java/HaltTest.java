@@ -1,12 +1,18 @@
 /** The halts. Where the document is silent: what halts takes no cycle, and PC stays at it. */
 final class HaltTest extends TestBase {
     private static final int FULL = 16;
+    private static final int FULL_WITH_INTERRUPTS = 1 + FULL * 4 - 1 + 2 + 2 + 1;
 
     public static void main(String[] args) {
         noInstructionThere();
         pushOnAFullStack();
         callOnAFullStack();
         interruptOnAFullStack();
+        interruptOnAFullStackAsleep();
+        twoInterruptsOnAFullStack();
+        pinsOnAFullStack();
+        noInterruptIsReadyOnAFullStack();
+        interruptsFillTheStack();
         popsFromAnEmptyStack();
         nothingHappensThen();
         haltedForGood();
@@ -55,19 +61,86 @@ final class HaltTest extends TestBase {
         dueState("CALL without end", x, DEPTH, FULL);
     }
 
-    private static void interruptOnAFullStack() {
+    /** The stack is full, reception and pins are enabled and I is 1 when it comes to the instruction at 8. */
+    private static TickController fullWithInterrupts(int operation) {
         TickController x = machine(program(code(LDI, 0, FULL, PUSH, 0, 0, DJNZ, 0, 1), out(SERIAL_CONTROL, 8),
-                code(SEI, 0, 0, LDI, 1, 1)));
-        x.vector(4, 6);
-        int time = 1 + FULL * 4 - 1 + 3;
-        pass(x, time);
+                out(MASK, 1), code(SEI, 0, 0, operation, 1, 1, LDI, 2, 2)));
+        x.vector(4, 1);
+        x.vector(8, 1);
+        pass(x, FULL_WITH_INTERRUPTS);
+        return x;
+    }
+
+    private static void dueNotTaken(String when, TickController x, int pc, int time, int pending) {
+        dueHaltAt(when, x, pc, time);
+        dueState(when, x, DEPTH, FULL);
+        dueState(when, x, TAKEN, 0);
+        dueState(when, x, FLAGS, I);
+        duePort(when, x, PENDING, pending);
+    }
+
+    private static void interruptOnAFullStack() {
+        TickController x = fullWithInterrupts(LDI);
         x.receive(1);
         due("interrupt on a full stack", x.run(10), 0);
-        dueHaltAt("interrupt on a full stack", x, 6, time);
-        dueState("interrupt on a full stack", x, DEPTH, FULL);
-        dueState("interrupt on a full stack", x, TAKEN, 0);
-        dueState("interrupt on a full stack", x, FLAGS, I);
-        duePort("interrupt on a full stack", x, PENDING, 0);
+        dueNotTaken("interrupt on a full stack", x, 8, FULL_WITH_INTERRUPTS, 16);
+        dueRegister("interrupt on a full stack", x, 1, 0);
+        due("interrupt on a full stack: run(10) again", x.run(10), 0);
+        dueNotTaken("interrupt on a full stack, later", x, 8, FULL_WITH_INTERRUPTS, 16);
+        x.power();
+        dueAsAtPower("interrupt on a full stack, then power", x);
+    }
+
+    private static void interruptOnAFullStackAsleep() {
+        TickController x = fullWithInterrupts(SLEEP);
+        pass(x, 20);
+        dueState("full and asleep", x, MODE, ASLEEP);
+        x.receive(1);
+        due("interrupt on a full stack, asleep", x.run(10), 0);
+        dueNotTaken("interrupt on a full stack, asleep", x, 9, FULL_WITH_INTERRUPTS + 20, 16);
+    }
+
+    private static void twoInterruptsOnAFullStack() {
+        TickController x = fullWithInterrupts(LDI);
+        x.receive(1);
+        x.pins(1);
+        due("two on a full stack", x.run(10), 0);
+        dueNotTaken("two on a full stack", x, 8, FULL_WITH_INTERRUPTS, 16);
+    }
+
+    private static void pinsOnAFullStack() {
+        TickController x = fullWithInterrupts(LDI);
+        x.pins(1);
+        due("pins on a full stack", x.run(10), 0);
+        dueNotTaken("pins on a full stack", x, 8, FULL_WITH_INTERRUPTS, 0);
+    }
+
+    /** Only an interrupt that would be taken halts: one that isn't enabled, or comes while I is 0, does not. */
+    private static void noInterruptIsReadyOnAFullStack() {
+        TickController x = machine(LDI, 0, FULL, PUSH, 0, 0, DJNZ, 0, 1, SEI, 0, 0, JMP, 0, 4);
+        x.receive(1);
+        pass(x, 1 + FULL * 4 - 1 + 1 + 20);
+        dueState("not enabled on a full stack", x, MODE, RUNNING);
+
+        TickController y = machine(program(code(LDI, 0, FULL, PUSH, 0, 0, DJNZ, 0, 1), out(SERIAL_CONTROL, 8),
+                code(JMP, 0, 5)));
+        y.receive(1);
+        pass(y, 1 + FULL * 4 - 1 + 2 + 20);
+        dueState("I is 0 on a full stack", y, MODE, RUNNING);
+    }
+
+    /** The last place on the stack may be taken; each handler is the program's beginning, which sets I again. */
+    private static void interruptsFillTheStack() {
+        TickController x = machine(program(out(A_CONTROL, 255), code(LDI, 0, 0, SEI, 0, 0, SLEEP, 0, 0)));
+        pass(x, 16 * FULL + 15);
+        dueState("sixteen taken", x, TAKEN, FULL);
+        dueState("sixteen taken", x, DEPTH, FULL);
+        dueState("sixteen taken", x, MODE, ASLEEP);
+        due("the seventeenth interrupt", x.run(100), 1);
+        dueHaltAt("the seventeenth interrupt", x, 5, 16 * FULL + 16);
+        dueState("the seventeenth interrupt", x, TAKEN, FULL);
+        dueState("the seventeenth interrupt", x, FLAGS, I);
+        duePort("the seventeenth interrupt", x, PENDING, 1);
     }
 
     private static void popsFromAnEmptyStack() {
