@@ -1,21 +1,23 @@
-/** Promises 1 to 4: a new object, load, vector, power. */
+/** Promises 1 to 3: a new object, load, vector. */
 final class BeginningTest extends TestBase {
     public static void main(String[] args) {
         newObjectIsAllZero();
         newObjectHasNoProgram();
         newObjectHasVectorsZero();
+        newObjectHasAnalogValuesZero();
         loadAnswersNumbers();
         loadRefusesWrongOperations();
+        refusedLoadChangesNothing();
         loadRefusesTheFortyNinth();
+        refusedFortyNinthChangesNothing();
+        loadTakesAnyOperands();
         loadGoesOnAfterRunning();
         vectorRanges();
+        vectorsAtBothEndsAreTaken();
+        vectorBeyondTheProgram();
         refusedVectorChangesNothing();
+        refusedVectorsChangeNoOther();
         everyVectorIsItsOwn();
-        powerBeginsAnew();
-        powerKeepsWhatStays();
-        powerEndsWhatIsUnderWay();
-        powerForgetsResets();
-        powerWakesFromHalt();
         end();
     }
 
@@ -44,6 +46,15 @@ final class BeginningTest extends TestBase {
             takeTheOne(x);
             dueState("vector " + k + " of a new object", x, PC, 0);
             dueState("vector " + k + " of a new object", x, TAKEN, 1);
+        }
+    }
+
+    private static void newObjectHasAnalogValuesZero() {
+        for (int c = 0; c < 4; c++) {
+            TickController x = machine(program(out(CONVERTER, 4 + c), code(SLEEP, 0, 0)));
+            pass(x, 53);
+            duePort("channel " + c + " of a new object", x, PENDING, 64);
+            duePort("channel " + c + " of a new object", x, RESULT, 0);
         }
     }
 
@@ -85,6 +96,20 @@ final class BeginningTest extends TestBase {
         due("a run over refused ones", x.run(1), 0);
     }
 
+    private static void refusedLoadChangesNothing() {
+        int[] wrongOnes = {-1, 27, Integer.MIN_VALUE, Integer.MAX_VALUE};
+        for (int op : wrongOnes) {
+            TickController x = machine(LDI, 0, 7, LDI, 1, 8, SLEEP, 0, 0);
+            pass(x, 1);
+            String before = snapshot(x);
+            due("load(" + op + ", 1, 9)", x.load(op, 1, 9), -1);
+            dueSame("load(" + op + ", 1, 9)", x, before);
+            pass(x, 1);
+            dueRegister("the next instruction after load(" + op + ", 1, 9)", x, 1, 8);
+            due("load after load(" + op + ", 1, 9)", x.load(LDI, 0, 0), 3);
+        }
+    }
+
     private static void loadRefusesTheFortyNinth() {
         TickController x = new TickController();
         for (int k = 0; k < 48; k++) {
@@ -95,6 +120,35 @@ final class BeginningTest extends TestBase {
         due("run through 48", x.run(100), 48);
         dueRegister("48 instructions", x, 0, 47);
         dueState("48 instructions", x, PC, 48);
+    }
+
+    private static void refusedFortyNinthChangesNothing() {
+        TickController x = new TickController();
+        for (int k = 0; k < 48; k++) {
+            x.load(LDI, k & 7, 100 + k);
+        }
+        pass(x, 20);
+        String before = snapshot(x);
+        due("the 49th", x.load(LDI, 0, 1), -1);
+        due("the 50th", x.load(JMP, 0, 0), -1);
+        dueSame("the 49th and the 50th", x, before);
+        due("the 28 that are left", x.run(100), 28);
+        for (int r = 0; r < 8; r++) {
+            dueRegister("48 instructions", x, r, 140 + r);
+        }
+        x.power();
+        due("the 49th after power", x.load(LDI, 0, 1), -1);
+    }
+
+    private static void loadTakesAnyOperands() {
+        TickController x = new TickController();
+        due("load(0, least, greatest)", x.load(LDI, Integer.MIN_VALUE, Integer.MAX_VALUE), 0);
+        due("load(0, greatest, least)", x.load(LDI, Integer.MAX_VALUE, Integer.MIN_VALUE + 5), 1);
+        due("load(0, -2, -2)", x.load(LDI, -2, -2), 2);
+        pass(x, 3);
+        dueRegister("least and greatest", x, 0, 255);
+        dueRegister("greatest and least", x, 7, 5);
+        dueRegister("-2 and -2", x, 6, 254);
     }
 
     private static void loadGoesOnAfterRunning() {
@@ -118,6 +172,31 @@ final class BeginningTest extends TestBase {
         }
     }
 
+    private static void vectorsAtBothEndsAreTaken() {
+        int[] ends = {0, 47};
+        for (int k = 0; k <= 8; k++) {
+            for (int at : ends) {
+                TickController x = allPendingOneEnabled(k);
+                x.vector(k, 47 - at);
+                x.vector(k, at);
+                takeTheOne(x);
+                dueState("vector(" + k + ", " + at + ")", x, PC, at);
+            }
+        }
+    }
+
+    /** A vector may point where no instruction is: the interrupt is taken, and then the machine halts. */
+    private static void vectorBeyondTheProgram() {
+        TickController x = allPendingOneEnabled(3);
+        due("vector(3, 27)", x.vector(3, 27), true);
+        takeTheOne(x);
+        dueState("at a vector without an instruction", x, MODE, RUNNING);
+        due("run(5) at a vector without an instruction", x.run(5), 0);
+        dueState("at a vector without an instruction", x, MODE, HALTED);
+        dueState("at a vector without an instruction", x, PC, 27);
+        dueState("at a vector without an instruction", x, TAKEN, 1);
+    }
+
     private static void refusedVectorChangesNothing() {
         TickController x = allPendingOneEnabled(4);
         x.vector(4, 30);
@@ -125,6 +204,20 @@ final class BeginningTest extends TestBase {
         x.vector(4, -1);
         takeTheOne(x);
         dueState("refused vector", x, PC, 30);
+    }
+
+    private static void refusedVectorsChangeNoOther() {
+        int[][] wrongOnes = {{-1, 5}, {9, 5}, {17, 5}, {256, 5}, {Integer.MIN_VALUE, 5}, {Integer.MAX_VALUE, 5}};
+        for (int k = 0; k <= 8; k++) {
+            TickController x = allPendingOneEnabled(k);
+            x.vector(k, 30 + k);
+            for (int[] w : wrongOnes) {
+                due("vector(" + w[0] + ", " + w[1] + ")", x.vector(w[0], w[1]), false);
+            }
+            due("vector(" + k + ", 48)", x.vector(k, 48), false);
+            takeTheOne(x);
+            dueState("vector " + k + " after refused ones", x, PC, 30 + k);
+        }
     }
 
     private static void everyVectorIsItsOwn() {
@@ -137,97 +230,5 @@ final class BeginningTest extends TestBase {
             dueState("interrupt " + k, x, PC, 30 + k);
             dueState("interrupt " + k, x, TAKEN, 1);
         }
-    }
-
-    /** A machine with next to nothing as it was at power; it sleeps from T = 1073 on. */
-    private static TickController busyMachine() {
-        TickController x = machine(program(
-                out(A_COUNT, 5), out(A_COMPARE, 9), out(A_CONTROL, 1), out(B_COUNT, 6), out(B_COMPARE, 20),
-                out(B_CONTROL, 1), out(DIVIDER, 1), out(SERIAL_DATA, 77), out(OUTPUT, 5), out(CONVERTER, 6),
-                out(STORE_ADDRESS, 3), out(STORE_DATA, 44), out(STORE_CONTROL, 8), out(SERIAL_CONTROL, 24),
-                out(MASK, 255), out(WATCHDOG, 7), code(ST, 7, 31, ST, 7, 0, MOV, 0, 7, LDI, 6, 1, SHR, 6, 0,
-                PUSH, 7, 0, SEI, 0, 0, DJNZ, 1, 39, SEI, 0, 0, SLEEP, 0, 0)));
-        for (int k = 0; k <= 8; k++) {
-            x.vector(k, 39);
-        }
-        return x;
-    }
-
-    private static void powerBeginsAnew() {
-        TickController x = busyMachine();
-        pass(x, 1200);
-        x.receive(12);
-        x.receive(13);
-        int[] states = {42, Z + C + I, 3, ASLEEP, 0, 2, 1200, 2};
-        for (int what = 0; what <= 7; what++) {
-            dueState("before power", x, what, states[what]);
-        }
-        due("before power: sent", x.sent(), 1);
-        due("before power: memory 31", x.memory(31), 7);
-        due("before power: memory 0", x.memory(0), 7);
-        dueRegister("before power", x, 0, 7);
-        x.power();
-        dueAsAtPower("power again", x);
-        duePort("power again", x, OUTPUT, 0);
-        duePort("power again", x, CLOCK, 0);
-    }
-
-    private static void powerKeepsWhatStays() {
-        TickController x = busyMachine();
-        pass(x, 1200);
-        x.analog(2, 200);
-        x.pins(170);
-        x.power();
-        duePort("power again", x, INPUT, 170);
-        due("power again: stored(3)", x.stored(3), 44);
-        due("power again: load", x.load(LDI, 0, 0), 42);
-        pass(x, 1200);
-        duePort("power again, program anew", x, RESULT, 200);
-        due("power again, program anew: line(0)", x.line(0), 77);
-        due("power again, program anew: sent()", x.sent(), 1);
-        x.receive(1);
-        pass(x, 3);
-        dueState("power again, vector kept", x, PC, 39);
-        dueState("power again, vector kept", x, TAKEN, 3);
-    }
-
-    private static void powerEndsWhatIsUnderWay() {
-        TickController x = machine(program(out(SERIAL_DATA, 1), out(STORE_DATA, 9), out(CONVERTER, 4),
-                code(SLEEP, 0, 0)));
-        x.analog(0, 3);
-        pass(x, 7);
-        x.power();
-        dueAsAtPower("power while all are at work", x);
-        pass(x, 8);
-        due("sent a cycle before its time", x.sent(), 0);
-        pass(x, 1);
-        due("sent", x.sent(), 1);
-        pass(x, 42 - 9);
-        due("stored a cycle before its time", x.stored(0), 0);
-        pass(x, 1);
-        due("stored", x.stored(0), 9);
-        pass(x, 56 - 43);
-        duePort("a cycle before its time", x, RESULT, 0);
-        pass(x, 1);
-        duePort("converted", x, RESULT, 3);
-    }
-
-    private static void powerForgetsResets() {
-        TickController x = machine(program(out(WATCHDOG, 1), code(SLEEP, 0, 0)));
-        pass(x, 40);
-        dueState("before power", x, RESETS, 1);
-        x.power();
-        dueAsAtPower("power after a reset", x);
-    }
-
-    private static void powerWakesFromHalt() {
-        TickController x = machine(LDI, 0, 3);
-        due("run to the end", x.run(10), 1);
-        dueState("at the end", x, MODE, HALTED);
-        x.load(LDI, 1, 4);
-        due("halted for good", x.run(10), 0);
-        x.power();
-        due("run after power", x.run(10), 2);
-        dueRegister("run after power", x, 1, 4);
     }
 }

@@ -10,6 +10,12 @@ final class ConverterTest extends TestBase {
         channelWrittenMeanwhileCounts();
         clearingBitTwoMeanwhileHasNoEffect();
         startAgain();
+        startInTheVeryNextCycle();
+        startWhileAtWorkDoesNotBeginAnew();
+        enablingWrittenMeanwhileCounts();
+        disablingWrittenMeanwhileCounts();
+        highBitsAreRead();
+        resultStaysWhileAtWork();
         interruptSix();
         end();
     }
@@ -91,6 +97,82 @@ final class ConverterTest extends TestBase {
         duePort("the second, a cycle before", x, RESULT, 5);
         pass(x, 1);
         duePort("the second", x, RESULT, 6);
+    }
+
+    /** The conversion that begins when T is 1 is at work until T is 53. */
+    private static void startInTheVeryNextCycle() {
+        TickController x = new TimedProgram().out(1, CONVERTER, START).out(52, CONVERTER, START).sleeping();
+        x.analog(0, 5);
+        pass(x, 53);
+        duePort("a start a cycle too early", x, CONVERTER, 0);
+        duePort("a start a cycle too early", x, RESULT, 5);
+        x.analog(0, 6);
+        pass(x, 100);
+        duePort("a start a cycle too early", x, RESULT, 5);
+        TickController y = new TimedProgram().out(1, CONVERTER, START).out(53, CONVERTER, START).sleeping();
+        y.analog(0, 5);
+        pass(y, 54);
+        duePort("a start just in time", y, CONVERTER, START);
+        y.analog(0, 6);
+        pass(y, 50);
+        duePort("a start just in time, 51 cycles", y, RESULT, 5);
+        pass(y, 1);
+        duePort("a start just in time, 52 cycles", y, RESULT, 6);
+    }
+
+    private static void startWhileAtWorkDoesNotBeginAnew() {
+        int[] times = {3, 20, 51, 52};
+        for (int when : times) {
+            TickController x = new TimedProgram().out(1, CONVERTER, START).out(when, CONVERTER, START).sleeping();
+            x.analog(0, 5);
+            pass(x, 52);
+            duePort("started again at " + when, x, RESULT, 0);
+            x.run(1);
+            duePort("started again at " + when, x, RESULT, 5);
+            duePort("started again at " + when, x, CONVERTER, 0);
+        }
+    }
+
+    private static void enablingWrittenMeanwhileCounts() {
+        TickController x = new TimedProgram().out(1, CONVERTER, START).out(10, CONVERTER, ENABLED)
+                .at(11, SEI, 0, 0).sleeping();
+        x.vector(6, 40);
+        pass(x, 53 + 3);
+        dueState("enabled meanwhile", x, TAKEN, 1);
+        dueState("enabled meanwhile", x, PC, 40);
+    }
+
+    private static void disablingWrittenMeanwhileCounts() {
+        TickController x = new TimedProgram().out(1, CONVERTER, START + ENABLED).out(10, CONVERTER, START)
+                .at(11, SEI, 0, 0).sleeping();
+        pass(x, 100);
+        dueState("disabled meanwhile", x, TAKEN, 0);
+        duePort("disabled meanwhile", x, PENDING, 64);
+    }
+
+    /** "Control reads as it was last written": bits 4 to 7, which mean nothing, too. */
+    private static void highBitsAreRead() {
+        TickController x = new TimedProgram().out(1, CONVERTER, 0xF0).out(3, CONVERTER, 0x54).out(5, CONVERTER, 0xA8)
+                .sleeping();
+        pass(x, 2);
+        duePort("not at work", x, CONVERTER, 0xF0);
+        pass(x, 2);
+        duePort("started", x, CONVERTER, 0x54);
+        pass(x, 2);
+        duePort("at work", x, CONVERTER, 0xA8 + START);
+        pass(x, 100);
+        duePort("long after", x, CONVERTER, 0xA8);
+    }
+
+    private static void resultStaysWhileAtWork() {
+        TickController x = new TimedProgram().out(1, CONVERTER, START).out(60, CONVERTER, START).sleeping();
+        x.analog(0, 5);
+        pass(x, 59);
+        x.analog(0, 255);
+        pass(x, 52);
+        duePort("the old result until the new one", x, RESULT, 5);
+        pass(x, 1);
+        duePort("the new result", x, RESULT, 255);
     }
 
     private static void interruptSix() {

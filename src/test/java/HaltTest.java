@@ -5,6 +5,9 @@ final class HaltTest extends TestBase {
 
     public static void main(String[] args) {
         noInstructionThere();
+        noProgramAtAll();
+        endOfAFullProgram();
+        everyJumpToNowhere();
         pushOnAFullStack();
         callOnAFullStack();
         interruptOnAFullStack();
@@ -15,6 +18,8 @@ final class HaltTest extends TestBase {
         interruptsFillTheStack();
         popsFromAnEmptyStack();
         nothingHappensThen();
+        nothingChangesThen();
+        watchdogDoesNotWakeIt();
         haltedForGood();
         sleepAtTheEndIsNoHalt();
         interruptAtTheEndIsTaken();
@@ -37,6 +42,51 @@ final class HaltTest extends TestBase {
         TickController z = machine(LDI, 0, 200, PUSH, 0, 0, RET, 0, 0);
         due("RET beyond the end", z.run(10), 6);
         dueHaltAt("RET beyond the end", z, 200, 6);
+    }
+
+    private static void noProgramAtAll() {
+        TickController x = new TickController();
+        due("no program", x.run(1), 0);
+        dueHaltAt("no program", x, 0, 0);
+        due("no program", x.run(3000), 0);
+        x.power();
+        dueState("no program, after power", x, MODE, RUNNING);
+        due("no program, after power", x.run(3000), 0);
+        dueHaltAt("no program, after power", x, 0, 0);
+    }
+
+    private static void endOfAFullProgram() {
+        TickController x = new TickController();
+        for (int k = 0; k < 48; k++) {
+            x.load(LDI, 0, k);
+        }
+        pass(x, 47);
+        dueState("before the last", x, PC, 47);
+        pass(x, 1);
+        dueState("after the last", x, PC, 48);
+        dueState("after the last", x, MODE, RUNNING);
+        dueRegister("after the last", x, 0, 47);
+        due("beyond the last", x.run(1), 0);
+        dueHaltAt("beyond the last", x, 48, 48);
+    }
+
+    /** Z and C are set and register 1 is 0, so that all of these jump; the program has six instructions. */
+    private static void everyJumpToNowhere() {
+        int[] jumps = {JMP, JZ, JC, CALL, DJNZ};
+        int[] places = {6, 47, 48, 255};
+        for (int op : jumps) {
+            for (int at : places) {
+                TickController x = machine(LDI, 0, 1, SHR, 0, 0, LDI, 2, 2, op, 1, at, LDI, 3, 3, LDI, 4, 4);
+                int cycles = 3 + (op == CALL ? 3 : 2);
+                due("operation " + op + " to " + at, x.run(100), cycles);
+                dueHaltAt("operation " + op + " to " + at, x, at, cycles);
+                dueRegister("operation " + op + " to " + at, x, 3, 0);
+            }
+            TickController y = machine(LDI, 0, 1, SHR, 0, 0, LDI, 2, 2, op, 1, 5, LDI, 3, 3, LDI, 4, 4);
+            y.run(100);
+            dueRegister("operation " + op + " to the last one", y, 4, 4);
+            dueRegister("operation " + op + " to the last one", y, 3, 0);
+        }
     }
 
     private static TickController pusher() {
@@ -169,6 +219,28 @@ final class HaltTest extends TestBase {
         dueState("halted", x, RESETS, 0);
         duePort("halted", x, A_COUNT, 4);
         due("halted: sent()", x.sent(), 0);
+    }
+
+    /** Each way to halt: what can be asked stays as it is, however long it runs. */
+    private static void nothingChangesThen() {
+        int[][] lastOnes = {{POP, 0, 0}, {RET, 0, 0}, {RETI, 0, 0}, {JMP, 0, 40}, {CALL, 0, 4}};
+        for (int[] last : lastOnes) {
+            TickController x = machine(program(out(A_CONTROL, 1 + 4 + 8 + 32), out(SERIAL_DATA, 5), last));
+            x.run(200);
+            dueState("halted by operation " + last[0], x, MODE, HALTED);
+            String before = snapshot(x);
+            due("halted by operation " + last[0], x.run(3000), 0);
+            due("halted by operation " + last[0], x.run(1), 0);
+            dueSame("halted by operation " + last[0], x, before);
+        }
+    }
+
+    private static void watchdogDoesNotWakeIt() {
+        TickController x = machine(program(out(WATCHDOG, 1), code(POP, 0, 0)));
+        due("up to POP", x.run(100), 2);
+        due("halted", x.run(3000), 0);
+        dueHaltAt("halted", x, 2, 2);
+        dueState("halted", x, RESETS, 0);
     }
 
     private static void haltedForGood() {

@@ -5,13 +5,18 @@ final class InstructionsTest extends TestBase {
     public static void main(String[] args) {
         loadsAndMoves();
         arithmetic();
+        wrapsAround();
+        carryOfEqualOnes();
         arithmeticOfARegisterWithItself();
         logicKeepsCarry();
         memoryInstructions();
+        memoryAtBothEnds();
         operandsAreMasked();
         cycles();
         jumpsTakenAndNot();
         djnz();
+        djnzFromZero();
+        djnzAllTheWayRound();
         callsAndReturns();
         pushAndPop();
         flagsStay();
@@ -158,10 +163,57 @@ final class InstructionsTest extends TestBase {
         due("cycles of DJNZ not taken", x.run(1), 1);
         dueRegister("DJNZ not taken", x, 0, 0);
         dueState("DJNZ not taken", x, PC, 2);
-        TickController y = machine(DJNZ, 0, 5);
-        due("cycles of DJNZ from 0", y.run(1), 2);
-        dueRegister("DJNZ from 0", y, 0, 255);
-        dueState("DJNZ from 0", y, PC, 5);
+    }
+
+    private static void djnzFromZero() {
+        TickController x = machine(DJNZ, 0, 5);
+        due("cycles of DJNZ from 0", x.run(1), 2);
+        dueRegister("DJNZ from 0", x, 0, 255);
+        dueState("DJNZ from 0", x, PC, 5);
+        dueState("DJNZ from 0", x, FLAGS, 0);
+    }
+
+    /** 255 rounds of two cycles and the last of one. */
+    private static void djnzAllTheWayRound() {
+        TickController x = machine(DJNZ, 0, 0);
+        pass(x, 2 * 255);
+        dueRegister("255 rounds", x, 0, 1);
+        dueState("255 rounds", x, PC, 0);
+        pass(x, 1);
+        dueRegister("256 rounds", x, 0, 0);
+        dueState("256 rounds", x, PC, 1);
+    }
+
+    private static void wrapsAround() {
+        dueResult("255 + 1", ADD, 255, 1, 0, true);
+        dueResult("255 + 0", ADD, 255, 0, 255, false);
+        dueResult("128 + 128", ADD, 128, 128, 0, true);
+        dueResult("255 + 255", ADD, 255, 255, 254, true);
+        dueResult("0 - 1", SUB, 0, 1, 255, true);
+        dueResult("0 - 255", SUB, 0, 255, 1, true);
+        dueResult("0 - 0", SUB, 0, 0, 0, false);
+        dueResult("SHR of 1", SHR, 1, 9, 0, true);
+        dueResult("SHR of 0", SHR, 0, 9, 0, false);
+        dueResult("SHR of 255", SHR, 255, 9, 127, true);
+    }
+
+    /** "C if rb was greater": an equal one is not greater. */
+    private static void carryOfEqualOnes() {
+        for (int v : EDGES_OF_BYTES) {
+            dueResult("equal ones", SUB, v, v, 0, false);
+            dueComparison(v, v);
+        }
+    }
+
+    private static void memoryAtBothEnds() {
+        TickController x = ran(LDI, 0, 11, ST, 0, 0, LDI, 1, 22, ST, 1, 31, LD, 2, 0, LD, 3, 31);
+        due("memory 0", x.memory(0), 11);
+        due("memory 31", x.memory(31), 22);
+        dueRegister("memory 0", x, 2, 11);
+        dueRegister("memory 31", x, 3, 22);
+        for (int m = 1; m < 31; m++) {
+            due("memory " + m, x.memory(m), 0);
+        }
     }
 
     private static void callsAndReturns() {

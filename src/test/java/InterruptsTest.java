@@ -7,6 +7,8 @@ final class InterruptsTest extends TestBase {
         notWithoutEnabling();
         pendingStaysUntilEnabled();
         theLeastComesFirst();
+        allNineInOrder();
+        aLesserOneThatIsNotEnabledWaits();
         notInsideAHandler();
         nextOneRightAfterReti();
         clearedOneIsNotTaken();
@@ -16,6 +18,10 @@ final class InterruptsTest extends TestBase {
         sleepWithoutI();
         sleepWithOnePendingAlready();
         sleepWithOneNotEnabled();
+        sleepUntilItIsEnabledNever();
+        beforeEachCycleAsleep();
+        interruptAtTheVeryFirstInstruction();
+        comingDuringAnInterruptWaits();
         end();
     }
 
@@ -116,6 +122,46 @@ final class InterruptsTest extends TestBase {
         }
         pass(x, 2);
         dueState("all taken", x, TAKEN, 5);
+    }
+
+    /** All nine are pending and I is 1 when T is 61. */
+    private static TickController ninePending(int controlOfA) {
+        TickController x = new TimedProgram().out(1, CONVERTER, 4 + 8).out(3, STORE_DATA, 1).out(5, SERIAL_DATA, 1)
+                .out(7, A_COUNT, 255).out(9, B_COUNT, 255).out(11, A_CONTROL, 1).out(13, B_CONTROL, 1)
+                .out(15, MASK, 128).out(17, A_CONTROL, controlOfA).out(19, B_CONTROL, 24).out(21, SERIAL_CONTROL, 24)
+                .out(23, STORE_CONTROL, 8).at(60, SEI, 0, 0).sleeping();
+        int handler = x.load(RETI, 0, 0);
+        due("the handler's number", handler > 0, true);
+        for (int k = 0; k <= 8; k++) {
+            x.vector(k, handler);
+        }
+        pass(x, 31);
+        x.pins(128);
+        x.receive(1);
+        pass(x, 61 - 31);
+        duePort("nine pending", x, PENDING, 255);
+        return x;
+    }
+
+    private static void allNineInOrder() {
+        TickController x = ninePending(24);
+        int left = 511;
+        for (int k = 0; k <= 8; k++) {
+            pass(x, 3);
+            left -= 1 << k;
+            duePort("taken: " + k, x, PENDING, left & 255);
+            dueState("taken: " + k, x, TAKEN, k + 1);
+            pass(x, 3);
+        }
+        pass(x, 20);
+        dueState("all nine", x, TAKEN, 9);
+    }
+
+    private static void aLesserOneThatIsNotEnabledWaits() {
+        TickController x = ninePending(16);
+        pass(x, 8 * 6 + 20);
+        dueState("all but 0", x, TAKEN, 8);
+        duePort("all but 0", x, PENDING, 1);
     }
 
     private static void notInsideAHandler() {
@@ -221,5 +267,54 @@ final class InterruptsTest extends TestBase {
         pass(x, 100);
         dueState("not enabled", x, MODE, ASLEEP);
         duePort("not enabled", x, PENDING, 16);
+    }
+
+    /** Asleep nothing can enable it, so it sleeps on, however long. */
+    private static void sleepUntilItIsEnabledNever() {
+        TickController x = machine(program(out(SERIAL_CONTROL, 16), code(SEI, 0, 0, SLEEP, 0, 0)));
+        pass(x, 4);
+        x.receive(1);
+        pass(x, 3000);
+        dueState("another one is enabled", x, MODE, ASLEEP);
+        dueState("another one is enabled", x, TAKEN, 0);
+    }
+
+    /** The timer's count comes to 20 when T is 23: the cycle after is the interrupt's first. */
+    private static void beforeEachCycleAsleep() {
+        TickController x = machine(program(out(A_COMPARE, 20), out(A_CONTROL, 1 + 8), code(SEI, 0, 0, SLEEP, 0, 0)));
+        x.vector(0, 30);
+        pass(x, 23);
+        dueState("pending, not taken yet", x, MODE, ASLEEP);
+        duePort("pending, not taken yet", x, PENDING, 1);
+        due("run(1)", x.run(1), 3);
+        dueState("taken", x, MODE, RUNNING);
+        dueState("taken", x, PC, 30);
+        dueState("taken", x, TIME, 26);
+    }
+
+    private static void interruptAtTheVeryFirstInstruction() {
+        TickController x = machine(SEI, 0, 0, LDI, 0, 1);
+        x.receive(1);
+        pass(x, 2);
+        dueState("at power nothing is enabled", x, TAKEN, 0);
+        dueRegister("at power nothing is enabled", x, 0, 1);
+    }
+
+    /** Interrupt 0 comes in the three cycles of interrupt 4: it is taken after RETI only. */
+    private static void comingDuringAnInterruptWaits() {
+        TickController x = machine(program(out(SERIAL_CONTROL, 8), out(A_COMPARE, 4), out(A_CONTROL, 1 + 8),
+                code(SEI, 0, 0, JMP, 0, 7, RETI, 0, 0)));
+        x.vector(4, 8);
+        x.vector(0, 20);
+        pass(x, 7);
+        duePort("before", x, A_COUNT, 2);
+        x.receive(1);
+        pass(x, 3);
+        dueState("the first", x, PC, 8);
+        duePort("the first", x, PENDING, 1);
+        pass(x, 3 + 3);
+        dueState("the second", x, PC, 20);
+        dueState("the second", x, DEPTH, 1);
+        dueState("the second", x, TAKEN, 2);
     }
 }

@@ -5,10 +5,16 @@ final class OutsideTest extends TestBase {
         pinsWithoutAMask();
         pinsWithAMask();
         pinsAnswerWhenPendingAlready();
+        eachPinHasItsOwnMaskBit();
+        pinsThatStayDoNothing();
         analogChannels();
+        refusedAnalogChangesNothing();
         analogValuesAreBytes();
         receivedByteIsAByte();
         secondByteIsLost();
+        lostByteChangesNothingButOverrun();
+        readDataLeavesOverrun();
+        readOverrunStillLosesBytes();
         lostByteMakesNothingPending();
         readingMakesRoom();
         haltedMachineStillReceives();
@@ -53,6 +59,32 @@ final class OutsideTest extends TestBase {
         dueState("two changes, one interrupt", x, TAKEN, 1);
     }
 
+    private static void eachPinHasItsOwnMaskBit() {
+        for (int bit = 0; bit < 8; bit++) {
+            TickController x = machine(program(out(MASK, 1 << bit), code(SLEEP, 0, 0)));
+            x.run(3);
+            for (int pin = 0; pin < 8; pin++) {
+                due("mask bit " + bit + ", pin " + pin + " up", x.pins(1 << pin), pin == bit);
+                due("mask bit " + bit + ", pin " + pin + " down", x.pins(0), pin == bit);
+            }
+            due("mask bit " + bit + ", all others up", x.pins(255 - (1 << bit)), false);
+            due("mask bit " + bit + ", all turned", x.pins(1 << bit), true);
+        }
+    }
+
+    private static void pinsThatStayDoNothing() {
+        TickController x = machine(program(out(MASK, 255), code(SEI, 0, 0, SLEEP, 0, 0)));
+        x.pins(0x5A);
+        x.run(10);
+        String before = snapshot(x);
+        due("the same pins", x.pins(0x5A), false);
+        due("the same pins, more bits", x.pins(0x15A), false);
+        due("the same pins, below 0", x.pins(0x5A - 256), false);
+        dueSame("the same pins", x, before);
+        pass(x, 10);
+        dueState("the same pins", x, TAKEN, 0);
+    }
+
     private static void analogChannels() {
         TickController x = new TickController();
         for (int c = 0; c < 4; c++) {
@@ -61,6 +93,21 @@ final class OutsideTest extends TestBase {
         int[] wrongOnes = {-1, 4, 5, 256, Integer.MIN_VALUE, Integer.MAX_VALUE};
         for (int c : wrongOnes) {
             due("analog(" + c + ", 1)", x.analog(c, 1), false);
+        }
+    }
+
+    private static void refusedAnalogChangesNothing() {
+        int[] wrongOnes = {-1, -4, 4, 5, 7, 8, 256, Integer.MIN_VALUE, Integer.MAX_VALUE};
+        for (int c = 0; c < 4; c++) {
+            TickController x = machine(program(out(CONVERTER, 4 + c), code(SLEEP, 0, 0)));
+            x.analog(c, 60 + c);
+            String before = snapshot(x);
+            for (int wrong : wrongOnes) {
+                due("analog(" + wrong + ", 9)", x.analog(wrong, 9), false);
+            }
+            dueSame("refused analog values", x, before);
+            pass(x, 53);
+            duePort("channel " + c + " after refused ones", x, RESULT, 60 + c);
         }
     }
 
@@ -98,6 +145,42 @@ final class OutsideTest extends TestBase {
         duePort("a lost byte", x, SERIAL_CONTROL, 1 + 2 + 4);
         due("receive(3) after both", x.receive(3), false);
         duePort("two lost bytes", x, SERIAL_DATA, 1);
+    }
+
+    private static void lostByteChangesNothingButOverrun() {
+        TickController x = machine(program(out(SERIAL_CONTROL, 24), code(SLEEP, 0, 0)));
+        pass(x, 5);
+        due("receive(1)", x.receive(1), true);
+        String before = snapshot(x);
+        due("receive(2)", x.receive(2), false);
+        dueSame("a lost byte", x, before.replace(" p7=27", " p7=31"));
+        duePort("a lost byte", x, SERIAL_CONTROL, 24 + 1 + 2 + 4);
+    }
+
+    /** OVERRUN is of the byte that was lost; it stays until IN of control, though the next one isn't lost. */
+    private static void readDataLeavesOverrun() {
+        TickController x = machine(IN, 0, SERIAL_DATA, IN, 1, SERIAL_CONTROL, SLEEP, 0, 0);
+        x.receive(1);
+        x.receive(2);
+        pass(x, 1);
+        dueRegister("the first byte", x, 0, 1);
+        duePort("IN of data", x, SERIAL_CONTROL, 1 + 4);
+        due("the third byte", x.receive(3), true);
+        duePort("the third byte", x, SERIAL_DATA, 3);
+        duePort("the third byte", x, SERIAL_CONTROL, 1 + 2 + 4);
+        pass(x, 1);
+        duePort("IN of control", x, SERIAL_CONTROL, 1 + 2);
+    }
+
+    private static void readOverrunStillLosesBytes() {
+        TickController x = machine(IN, 1, SERIAL_CONTROL, SLEEP, 0, 0);
+        x.receive(1);
+        x.receive(2);
+        pass(x, 1);
+        duePort("IN of control", x, SERIAL_CONTROL, 1 + 2);
+        due("IN of control makes no room", x.receive(3), false);
+        duePort("IN of control makes no room", x, SERIAL_DATA, 1);
+        duePort("IN of control makes no room", x, SERIAL_CONTROL, 1 + 2 + 4);
     }
 
     private static void lostByteMakesNothingPending() {

@@ -2,10 +2,16 @@
 final class PortsTest extends TestBase {
     public static void main(String[] args) {
         writtenAndRead();
-        portsWithoutEffectOfOut();
+        lowBitsOfSerialControl();
+        resultIsNotWritten();
+        inputPinsAreNotWritten();
+        timeIsNotWritten();
+        nothingAboveNineteenIsWritten();
         portsAboveNineteen();
         pendingPort();
         pendingPortLeavesEight();
+        pendingPortWithoutBits();
+        pendingPortBitByBit();
         clockPort();
         inGivesWhatPortAnswers();
         end();
@@ -43,17 +49,67 @@ final class PortsTest extends TestBase {
         }
     }
 
-    private static void portsWithoutEffectOfOut() {
-        int[] still = {RESULT, INPUT};
-        for (int p : still) {
-            TickController x = machine(program(out(p, 99)));
-            x.pins(p == INPUT ? 5 : 0);
-            x.run(2);
-            duePort("OUT", x, p, p == INPUT ? 5 : 0);
+    /** Bits 0 to 2 are what the line does; neither 0 nor 1 in them changes that. */
+    private static void lowBitsOfSerialControl() {
+        int[] written = {0, 7};
+        for (int v : written) {
+            TickController x = machine(program(out(SERIAL_CONTROL, v)));
+            pass(x, 2);
+            duePort("nothing sent or received, written " + v, x, SERIAL_CONTROL, 1);
+            TickController y = machine(program(out(SERIAL_DATA, 65), out(SERIAL_CONTROL, v), code(SLEEP, 0, 0)));
+            y.receive(8);
+            y.receive(9);
+            pass(y, 4);
+            duePort("sending, RECEIVED and OVERRUN, written " + v, y, SERIAL_CONTROL, 2 + 4);
+            due("RECEIVED, written " + v, y.receive(10), false);
+            pass(y, 8 - 3);
+            due("sent, written " + v, y.line(0), 65);
+            duePort("sent, written " + v, y, SERIAL_CONTROL, 1 + 2 + 4);
         }
-        TickController x = machine(out(CLOCK, 99));
-        x.run(2);
-        duePort("OUT", x, CLOCK, 2);
+    }
+
+    private static void resultIsNotWritten() {
+        TickController x = new TimedProgram().out(1, CONVERTER, 4).out(60, RESULT, 0).out(70, RESULT, 255).sleeping();
+        x.analog(0, 77);
+        pass(x, 61);
+        duePort("OUT of 0", x, RESULT, 77);
+        pass(x, 10);
+        duePort("OUT of 255", x, RESULT, 77);
+    }
+
+    private static void inputPinsAreNotWritten() {
+        TickController x = machine(program(out(MASK, 255), out(INPUT, 255), out(INPUT, 0),
+                code(SEI, 0, 0, SLEEP, 0, 0)));
+        x.pins(0x33);
+        pass(x, 4);
+        duePort("OUT of 255", x, INPUT, 0x33);
+        pass(x, 2);
+        duePort("OUT of 0", x, INPUT, 0x33);
+        pass(x, 10);
+        dueState("no pin has changed", x, TAKEN, 0);
+        dueState("no pin has changed", x, EDGES, 0);
+    }
+
+    private static void timeIsNotWritten() {
+        TickController x = machine(program(out(CLOCK, 200), out(CLOCK, 0), code(SLEEP, 0, 0)));
+        pass(x, 2);
+        dueState("OUT of 200", x, TIME, 2);
+        duePort("OUT of 200", x, CLOCK, 2);
+        pass(x, 2);
+        dueState("OUT of 0", x, TIME, 4);
+        duePort("OUT of 0", x, CLOCK, 4);
+    }
+
+    /** Beside an OUT to port 15, which has no effect either, all is the same. */
+    private static void nothingAboveNineteenIsWritten() {
+        TickController still = machine(out(CLOCK, 255));
+        pass(still, 2);
+        String due = snapshot(still);
+        for (int p = 20; p < 32; p++) {
+            TickController x = machine(out(p, 255));
+            pass(x, 2);
+            dueSame("OUT to " + p, x, due);
+        }
     }
 
     private static void portsAboveNineteen() {
@@ -85,6 +141,27 @@ final class PortsTest extends TestBase {
         duePort("interrupt 8", x, PENDING, 0);
         pass(x, 3 + 3);
         dueState("interrupt 8 after OUT of 255", x, TAKEN, 1);
+    }
+
+    private static void pendingPortWithoutBits() {
+        TickController x = machine(program(out(PENDING, 0), code(SLEEP, 0, 0)));
+        x.receive(1);
+        pass(x, 2);
+        duePort("OUT of 0", x, PENDING, 16);
+    }
+
+    /** All eight are pending when T is 60; each OUT makes one of them not pending, and none comes again. */
+    private static void pendingPortBitByBit() {
+        for (int k = 0; k < 8; k++) {
+            TickController x = new TimedProgram().out(1, CONVERTER, 4).out(3, STORE_DATA, 1).out(5, SERIAL_DATA, 1)
+                    .out(7, A_COUNT, 255).out(9, B_COUNT, 255).out(11, A_CONTROL, 1).out(13, B_CONTROL, 1)
+                    .out(60, PENDING, 1 << k).sleeping();
+            x.receive(1);
+            pass(x, 60);
+            duePort("all eight", x, PENDING, 255);
+            pass(x, 1);
+            duePort("bit " + k + " written", x, PENDING, 255 - (1 << k));
+        }
     }
 
     private static void clockPort() {

@@ -7,6 +7,9 @@ final class ReadingTest extends TestBase {
         memory();
         ports();
         portsReadWithoutEffects();
+        portsAboveNineteen();
+        lookingChangesNothing();
+        outOfRangeChangesNothing();
         states();
         storeBytes();
         lineKeepsTheFirst();
@@ -65,6 +68,51 @@ final class ReadingTest extends TestBase {
         dueRegister("IN of control, overrun read", x, 1, 3);
         dueRegister("IN of data", x, 2, 50);
         dueRegister("IN of control, data read", x, 3, 1);
+    }
+
+    /** IN of 20 to 31 gives 0, but the call has no such ports. */
+    private static void portsAboveNineteen() {
+        TickController x = machine(LDI, 0, 9, IN, 0, 20, LDI, 1, 9, IN, 1, 31);
+        pass(x, 4);
+        dueRegister("IN of 20", x, 0, 0);
+        dueRegister("IN of 31", x, 1, 0);
+        for (int p = 20; p < 40; p++) {
+            due("port(" + p + ")", x.port(p), -1);
+        }
+    }
+
+    private static TickController inTheMiddleOfAll() {
+        TickController x = machine(program(out(A_CONTROL, 1), out(SERIAL_DATA, 5), out(CONVERTER, 4),
+                out(STORE_DATA, 6), out(OUTPUT, 7), out(WATCHDOG, 3), out(MASK, 255), code(PUSH, 7, 0, SLEEP, 0, 0)));
+        pass(x, 20);
+        x.receive(1);
+        x.receive(2);
+        x.pins(1);
+        return x;
+    }
+
+    private static void lookingChangesNothing() {
+        TickController x = inTheMiddleOfAll();
+        String before = snapshot(x);
+        dueSame("looked at once", x, before);
+        TickController y = inTheMiddleOfAll();
+        pass(x, 30);
+        pass(y, 30);
+        dueSame("one that was looked at, later", x, snapshot(y));
+    }
+
+    private static void outOfRangeChangesNothing() {
+        TickController x = inTheMiddleOfAll();
+        String before = snapshot(x);
+        for (int k : FAR_OUT) {
+            due("register(" + k + ")", x.register(k), -1);
+            due("memory(" + k + ")", x.memory(k), -1);
+            due("port(" + k + ")", x.port(k), -1);
+            due("state(" + k + ")", x.state(k), -1);
+            due("stored(" + k + ")", x.stored(k), -1);
+            due("line(" + k + ")", x.line(k), -1);
+        }
+        dueSame("asked out of range", x, before);
     }
 
     private static void states() {

@@ -3,6 +3,8 @@ final class RunTest extends TestBase {
     public static void main(String[] args) throws ReflectiveOperationException {
         wrongNumbersDoNothing();
         edgesOfTheNumber();
+        refusedNumbersChangeNothing();
+        answersUpToTwoMoreThanAsked();
         passesAtLeastSoMany();
         anInterruptIsAStepOfItsOwn();
         cyclesAsleepPassOneByOne();
@@ -45,6 +47,36 @@ final class RunTest extends TestBase {
         due("run(2) over LDI and JMP", y.run(2), 3);
         due("run(4) over two JMPs", y.run(4), 4);
         due("run(5) over three JMPs", y.run(5), 6);
+    }
+
+    private static void refusedNumbersChangeNothing() {
+        int[] wrongOnes = {0, -1, 3001, Integer.MAX_VALUE, Integer.MIN_VALUE};
+        for (int n : wrongOnes) {
+            TickController x = machine(program(out(A_CONTROL, 1), out(SERIAL_DATA, 5), out(WATCHDOG, 1),
+                    code(SLEEP, 0, 0)));
+            pass(x, 8);
+            String before = snapshot(x);
+            due("run(" + n + ")", x.run(n), -1);
+            dueSame("run(" + n + ")", x, before);
+            pass(x, 1);
+            duePort("a cycle after run(" + n + ")", x, A_COUNT, 8);
+        }
+    }
+
+    /** A byte is sent when T is 5 + 8 * 256 = 2053; the interrupt that comes then takes three cycles. */
+    private static void answersUpToTwoMoreThanAsked() {
+        int[][] askedAndDue = {{2052, 2052}, {2053, 2053}, {2054, 2056}, {2055, 2056}, {2056, 2056}, {2057, 2057}};
+        for (int[] n : askedAndDue) {
+            TickController x = machine(program(out(SERIAL_CONTROL, 16), code(SEI, 0, 0), out(DIVIDER, 255),
+                    code(OUT, 0, SERIAL_DATA, SLEEP, 0, 0)));
+            x.vector(5, 6);
+            due("run(" + n[0] + ")", x.run(n[0]), n[1]);
+            dueState("run(" + n[0] + ")", x, TIME, n[1]);
+            dueState("run(" + n[0] + ")", x, TAKEN, n[0] > 2053 ? 1 : 0);
+        }
+        TickController y = machine(LDI, 0, 0, JMP, 0, 1);
+        due("run(3000) over LDI and JMPs", y.run(3000), 3001);
+        due("run(2999) over JMPs", y.run(2999), 3000);
     }
 
     private static void anInterruptIsAStepOfItsOwn() {
@@ -111,14 +143,32 @@ final class RunTest extends TestBase {
         duePort("400 runs", x, CLOCK, 1200000 & 255);
     }
 
-    /** So great a T is beyond what 512 calls can reach, so it is put into the object. */
+    /** So great a T is beyond what 512 calls can reach, so it is put into the field that holds it. */
     private static void greatestTime() throws ReflectiveOperationException {
         TickController x = machine(SLEEP, 0, 0);
-        java.lang.reflect.Field time = TickController.class.getDeclaredField("time");
-        time.setAccessible(true);
-        time.setInt(x, 1000000000);
+        pass(x, 777);
+        setFieldsOf(x, 777, 999999999);
+        dueState("T is put into the object", x, TIME, 999999999);
+        due("run(1) just below the greatest T", x.run(1), 1);
         due("run(1) at the greatest T", x.run(1), 1);
+        dueState("run(1) at the greatest T", x, TIME, 1000000001);
+        String before = snapshot(x);
         due("run(1) above it", x.run(1), -1);
-        dueState("run(1) above it", x, TIME, 1000000001);
+        due("run(3000) above it", x.run(3000), -1);
+        dueSame("run above it", x, before);
+        x.power();
+        pass(x, 1);
+    }
+
+    private static void setFieldsOf(TickController x, int old, int value) throws ReflectiveOperationException {
+        for (java.lang.reflect.Field f : TickController.class.getDeclaredFields()) {
+            f.setAccessible(true);
+            if (f.getType() == int.class && f.getInt(x) == old) {
+                f.setInt(x, value);
+            }
+            if (f.getType() == long.class && f.getLong(x) == old) {
+                f.setLong(x, value);
+            }
+        }
     }
 }

@@ -5,10 +5,17 @@ final class SerialTest extends TestBase {
         dividerCountsWhenSendingBegins();
         outWhileSendingDoesNothing();
         outInTheVeryNextCycle();
+        dividerWrittenWhileSendingCountsForTheNext();
+        everyByteIsSent();
+        sendingEndsOnlyOnce();
+        receivingWhileSending();
         sentInterrupt();
         receptionInterrupt();
         controlReads();
         dataReads();
+        zeroIfNoneWasEverReceived();
+        dataIsReadAgain();
+        receivedZeroIsReceived();
         end();
     }
 
@@ -56,6 +63,55 @@ final class SerialTest extends TestBase {
         TickController inTime = outTwice(SERIAL_DATA, 7);
         due("second byte just in time: sent()", inTime.sent(), 2);
         due("second byte just in time: line(1)", inTime.line(1), 2);
+    }
+
+    private static void dividerWrittenWhileSendingCountsForTheNext() {
+        TickController x = new TimedProgram().out(1, SERIAL_DATA, 1).out(3, DIVIDER, 1).out(9, SERIAL_DATA, 2)
+                .out(11, DIVIDER, 0).sleeping();
+        pass(x, 9);
+        due("the first, after 8 cycles: sent()", x.sent(), 1);
+        pass(x, 15);
+        due("the second, after 15 cycles: sent()", x.sent(), 1);
+        pass(x, 1);
+        due("the second, after 16 cycles: sent()", x.sent(), 2);
+        due("the second: line(1)", x.line(1), 2);
+    }
+
+    private static void everyByteIsSent() {
+        int[] values = {0, 1, 127, 128, 255};
+        for (int v : values) {
+            TickController x = machine(program(out(SERIAL_DATA, v), code(SLEEP, 0, 0)));
+            pass(x, 9);
+            due("line(0)", x.line(0), v);
+            due("line(1)", x.line(1), -1);
+        }
+    }
+
+    /** The byte that was refused isn't sent later, and the one being sent isn't begun anew or changed by it. */
+    private static void sendingEndsOnlyOnce() {
+        for (int when = 3; when <= 8; when++) {
+            TickController x = new TimedProgram().out(1, SERIAL_DATA, 65).out(when, SERIAL_DATA, 66).sleeping();
+            pass(x, 8);
+            due("OUT at " + when + ", a cycle before: sent()", x.sent(), 0);
+            duePort("OUT at " + when + ", a cycle before", x, SERIAL_CONTROL, 0);
+            x.run(9 - x.state(TIME));
+            due("OUT at " + when + ": line(0)", x.line(0), 65);
+            duePort("OUT at " + when, x, SERIAL_CONTROL, 1);
+            pass(x, 100);
+            due("OUT at " + when + ", long after: sent()", x.sent(), 1);
+        }
+    }
+
+    private static void receivingWhileSending() {
+        TickController x = machine(program(out(SERIAL_DATA, 65), code(SLEEP, 0, 0)));
+        pass(x, 5);
+        due("receive(66) while sending", x.receive(66), true);
+        duePort("receive(66) while sending", x, SERIAL_CONTROL, 2);
+        duePort("receive(66) while sending", x, SERIAL_DATA, 66);
+        pass(x, 4);
+        due("sent", x.line(0), 65);
+        duePort("sent", x, SERIAL_DATA, 66);
+        duePort("sent", x, PENDING, 16 + 32);
     }
 
     private static void sentInterrupt() {
@@ -109,5 +165,35 @@ final class SerialTest extends TestBase {
         dueRegister("IN of data leaves overrun", x, 2, 1 + 4);
         duePort("the byte stays to be read", x, SERIAL_DATA, 44);
         duePort("IN leaves it pending", x, PENDING, 16);
+    }
+
+    private static void zeroIfNoneWasEverReceived() {
+        TickController x = machine(program(out(SERIAL_DATA, 65), code(LDI, 0, 9, IN, 0, SERIAL_DATA, SLEEP, 0, 0)));
+        pass(x, 50);
+        dueRegister("a byte was sent, none was received", x, 0, 0);
+        duePort("a byte was sent, none was received", x, SERIAL_DATA, 0);
+        TickController y = machine(IN, 0, SERIAL_DATA, SLEEP, 0, 0);
+        y.receive(7);
+        y.power();
+        pass(y, 1);
+        dueRegister("none since power", y, 0, 0);
+    }
+
+    /** IN makes RECEIVED 0, but the byte received stays what it was. */
+    private static void dataIsReadAgain() {
+        TickController x = machine(IN, 0, SERIAL_DATA, IN, 1, SERIAL_DATA, IN, 2, SERIAL_CONTROL);
+        x.receive(77);
+        pass(x, 3);
+        dueRegister("IN once", x, 0, 77);
+        dueRegister("IN twice", x, 1, 77);
+        dueRegister("RECEIVED is 0", x, 2, 1);
+    }
+
+    private static void receivedZeroIsReceived() {
+        TickController x = new TickController();
+        due("receive(0)", x.receive(0), true);
+        duePort("receive(0)", x, SERIAL_CONTROL, 1 + 2);
+        due("receive(5)", x.receive(5), false);
+        duePort("receive(5)", x, SERIAL_DATA, 0);
     }
 }

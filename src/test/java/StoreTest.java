@@ -5,6 +5,11 @@ final class StoreTest extends TestBase {
         addressAndByteOfTheBeginning();
         outWhileStoringDoesNothing();
         outInTheVeryNextCycle();
+        addressesWrapAround();
+        outWhileStoringNeitherBeginsAnewNorChanges();
+        everyAddressIsItsOwn();
+        zeroAtFirst();
+        controlWrittenWhileStoring();
         dataReadsAtTheAddress();
         interruptSeven();
         outlastsAll();
@@ -48,6 +53,67 @@ final class StoreTest extends TestBase {
     private static void outInTheVeryNextCycle() {
         due("second byte a cycle too early", outTwice(STORE_DATA, 38).stored(0), 1);
         due("second byte just in time", outTwice(STORE_DATA, 39).stored(0), 2);
+    }
+
+    private static void addressesWrapAround() {
+        int[][] addresses = {{0, 0}, {15, 15}, {16, 0}, {31, 15}, {32, 0}, {255, 15}};
+        for (int[] a : addresses) {
+            TickController x = machine(program(out(STORE_ADDRESS, a[0]), out(STORE_DATA, 77), code(SLEEP, 0, 0)));
+            pass(x, 43);
+            duePort("address " + a[0], x, STORE_ADDRESS, a[1]);
+            duePort("address " + a[0], x, STORE_DATA, 77);
+            for (int k = 0; k < 16; k++) {
+                due("address " + a[0] + ": stored(" + k + ")", x.stored(k), k == a[1] ? 77 : 0);
+            }
+        }
+    }
+
+    private static void outWhileStoringNeitherBeginsAnewNorChanges() {
+        int[] times = {3, 20, 39, 40};
+        for (int when : times) {
+            TickController x = new TimedProgram().out(1, STORE_DATA, 65).out(when, STORE_DATA, 66).sleeping();
+            pass(x, 40);
+            due("OUT at " + when + ", a cycle before", x.stored(0), 0);
+            x.run(1);
+            due("OUT at " + when, x.stored(0), 65);
+            duePort("OUT at " + when, x, STORE_CONTROL, 1);
+            pass(x, 100);
+            due("OUT at " + when + ", long after", x.stored(0), 65);
+        }
+    }
+
+    private static void everyAddressIsItsOwn() {
+        TickController x = machine(LDI, 2, 1, OUT, 0, STORE_ADDRESS, LDI, 3, 100, ADD, 3, 0, OUT, 3, STORE_DATA,
+                LDI, 1, 20, DJNZ, 1, 6, ADD, 0, 2, JMP, 0, 1);
+        pass(x, 1 + 16 * 47);
+        for (int k = 0; k < 16; k++) {
+            due("stored(" + k + ")", x.stored(k), 100 + k);
+        }
+    }
+
+    private static void zeroAtFirst() {
+        TickController x = machine(LDI, 0, 16, DJNZ, 0, 3, SLEEP, 0, 0, OUT, 0, STORE_ADDRESS, LDI, 1, 9,
+                IN, 1, STORE_DATA, ADD, 2, 1, JMP, 0, 1);
+        x.run(300);
+        dueState("all looked at", x, MODE, ASLEEP);
+        dueRegister("all bytes together", x, 2, 0);
+        dueRegister("the last byte", x, 1, 0);
+    }
+
+    private static void controlWrittenWhileStoring() {
+        TickController x = new TimedProgram().out(1, STORE_DATA, 65).out(3, STORE_CONTROL, 8).at(4, SEI, 0, 0)
+                .out(6, STORE_CONTROL, 255 - 8).out(8, STORE_CONTROL, 8 + 1).sleeping();
+        x.vector(7, 40);
+        pass(x, 4);
+        duePort("bit 3 while storing", x, STORE_CONTROL, 8);
+        pass(x, 3);
+        duePort("all but bit 3 while storing", x, STORE_CONTROL, 0);
+        pass(x, 2);
+        duePort("bits 3 and 0 while storing", x, STORE_CONTROL, 8);
+        pass(x, 41 - 9);
+        duePort("stored", x, STORE_CONTROL, 8 + 1);
+        pass(x, 3);
+        dueState("stored", x, PC, 40);
     }
 
     private static void dataReadsAtTheAddress() {

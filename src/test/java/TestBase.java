@@ -26,6 +26,38 @@ abstract class TestBase {
         due(what, got ? 1 : 0, want ? 1 : 0);
     }
 
+    /** All that can be asked of an object, as one text. */
+    static String snapshot(TickController x) {
+        StringBuilder all = new StringBuilder();
+        for (int what = 0; what <= 7; what++) {
+            all.append(" state").append(what).append('=').append(x.state(what));
+        }
+        for (int r = 0; r < 8; r++) {
+            all.append(" r").append(r).append('=').append(x.register(r));
+        }
+        for (int m = 0; m < 32; m++) {
+            all.append(" m").append(m).append('=').append(x.memory(m));
+        }
+        for (int p = 0; p <= 19; p++) {
+            all.append(" p").append(p).append('=').append(x.port(p));
+        }
+        for (int k = 0; k < 16; k++) {
+            all.append(" s").append(k).append('=').append(x.stored(k));
+        }
+        all.append(" sent=").append(x.sent());
+        for (int k = 0; k < Math.min(x.sent(), 32); k++) {
+            all.append(" l").append(k).append('=').append(x.line(k));
+        }
+        return all.toString();
+    }
+
+    /** A call that is refused, or only looks, leaves an object as it was. */
+    static void dueSame(String when, TickController x, String want) {
+        String got = snapshot(x);
+        due(when + ": all as before" + (got.equals(want) ? "" : "\n  got " + got + "\n  due " + want),
+                got.equals(want), true);
+    }
+
     static void end() {
         if (wrong != 0) {
             System.exit(1);

@@ -15,6 +15,15 @@ final class TimersTest extends TestBase {
             clearsWithCompareZero(timer);
             clearsWithCompareTopWithoutOverflow(timer);
             countAboveCompareGoesRound(timer);
+            comparesAtTheTopWithoutClearing(timer);
+            wrapsWithPrescalers(timer);
+            clearsWithPrescalers(timer);
+            neverTicksWithLowBitsZero(timer);
+            clearingIsNoOverflow(timer);
+            wrapsTwice(timer);
+            equalEachTimeRound(timer);
+            pinIsTurnedWhereverItWas(timer);
+            pinIsNotTurnedByOut(timer);
             turnsItsPin(timer);
             interruptsAreEnabledApart(timer);
             otherTimerStands(timer);
@@ -193,5 +202,106 @@ final class TimersTest extends TestBase {
         TickController x = timed(timer, 0, 3, 1);
         pass(x, 50);
         duePort("the other timer", x, count(1 - timer), 0);
+    }
+
+    private static void comparesAtTheTopWithoutClearing(int timer) {
+        TickController x = timed(timer, 253, 255, 1);
+        pass(x, 1);
+        duePort("254 of 255", x, PENDING, 0);
+        pass(x, 1);
+        duePort("255 of 255", x, PENDING, equalBit(timer));
+        pass(x, 1);
+        duePort("from 255 to 0", x, count(timer), 0);
+        duePort("from 255 to 0", x, PENDING, equalBit(timer) + overflowBit(timer));
+    }
+
+    private static void wrapsWithPrescalers(int timer) {
+        int[] every = {0, 1, 4, 16};
+        for (int prescaler = 2; prescaler <= 3; prescaler++) {
+            TickController x = timed(timer, 254, 100, prescaler);
+            pass(x, 2 * every[prescaler] - 1 - 5);
+            int start = prescaler == 2 ? 254 : 255;
+            duePort("a cycle before a multiple", x, count(timer), start);
+            pass(x, 1);
+            duePort("at a multiple", x, count(timer), (start + 1) & 255);
+            duePort("at a multiple", x, PENDING, start == 255 ? overflowBit(timer) : 0);
+            pass(x, every[prescaler]);
+            duePort("at the next multiple", x, count(timer), (start + 2) & 255);
+            duePort("at the next multiple", x, PENDING, overflowBit(timer));
+        }
+    }
+
+    private static void clearsWithPrescalers(int timer) {
+        TickController x = timed(timer, 0, 2, 2 + CLEARS);
+        int[] counts = {1, 2, 0, 1, 2, 0};
+        for (int k = 0; k < counts.length; k++) {
+            x.run(8 + 4 * k - x.state(TIME));
+            duePort("T = " + (8 + 4 * k), x, count(timer), counts[k]);
+        }
+        duePort("it was cleared twice", x, PENDING, equalBit(timer));
+    }
+
+    private static void neverTicksWithLowBitsZero(int timer) {
+        TickController x = timed(timer, 255, 0, 0xFC);
+        pass(x, 3000);
+        duePort("all bits but the low ones", x, count(timer), 255);
+        duePort("all bits but the low ones", x, PENDING, 0);
+        dueState("all bits but the low ones", x, EDGES, 0);
+    }
+
+    /** At 255 with compare 255 and bit 2 the count becomes 0 because it is equal, not because it goes up. */
+    private static void clearingIsNoOverflow(int timer) {
+        TickController x = timed(timer, 255, 255, 1 + CLEARS);
+        pass(x, 1);
+        duePort("cleared from 255", x, count(timer), 0);
+        duePort("cleared from 255", x, PENDING, 0);
+    }
+
+    private static void wrapsTwice(int timer) {
+        TickController x = machine(program(out(count(timer) + 2, 7), out(count(timer) + 1, 1 + OVERFLOW_ENABLED),
+                code(SEI, 0, 0, SLEEP, 0, 0, JMP, 0, 5, RETI, 0, 0)));
+        x.vector(2 * timer + 1, 7);
+        pass(x, 3 + 255);
+        duePort("255", x, count(timer), 255);
+        pass(x, 1 + 3);
+        dueState("the first 0", x, TAKEN, 1);
+        pass(x, 256 - 1 - 3);
+        duePort("255 again", x, count(timer), 255);
+        dueState("255 again", x, TAKEN, 1);
+        pass(x, 1 + 3);
+        dueState("the second 0", x, TAKEN, 2);
+    }
+
+    private static void equalEachTimeRound(int timer) {
+        TickController x = timed(timer, 0, 100, 1 + TURNS);
+        pass(x, 100);
+        dueState("the first time", x, EDGES, 1);
+        pass(x, 255);
+        dueState("a cycle before the second time", x, EDGES, 1);
+        pass(x, 1);
+        dueState("the second time", x, EDGES, 2);
+    }
+
+    private static void pinIsTurnedWhereverItWas(int timer) {
+        TickController x = machine(program(out(OUTPUT, 255), out(count(timer) + 2, 5), out(count(timer) + 1, 1 + TURNS),
+                code(SLEEP, 0, 0)));
+        pass(x, 5 + 4);
+        duePort("before", x, OUTPUT, 255);
+        dueState("before", x, EDGES, 8);
+        pass(x, 1);
+        duePort("turned to 0", x, OUTPUT, 255 - (1 << timer));
+        dueState("turned to 0", x, EDGES, 9);
+    }
+
+    /** They are equal by OUT of the compare value when no tick comes: the pin stays, as nothing becomes pending. */
+    private static void pinIsNotTurnedByOut(int timer) {
+        TickController x = machine(program(out(count(timer) + 1, 3 + TURNS), out(count(timer), 9),
+                out(count(timer) + 2, 9), code(SLEEP, 0, 0)));
+        pass(x, 15);
+        duePort("equal without a tick", x, OUTPUT, 0);
+        duePort("equal without a tick", x, PENDING, 0);
+        pass(x, 1);
+        duePort("a tick away from it", x, count(timer), 10);
+        duePort("a tick away from it", x, OUTPUT, 0);
     }
 }

@@ -7,6 +7,13 @@ final class WatchdogTest extends TestBase {
         wdrBeginsAnew();
         outBeginsAnew();
         outOfNoneEndsIt();
+        lengthNoneNeverResets();
+        lengthNoneAfterAlmostAll();
+        wdrAfterLengthNone();
+        lengthWrittenAnewCounts();
+        sleepsUntilTheWatchdog();
+        resetsAgainAndAgain();
+        resetOfEachPort();
         wdrWithoutAWatchdog();
         resetEndsIt();
         resetOfTheProcessor();
@@ -84,6 +91,90 @@ final class WatchdogTest extends TestBase {
         TickController x = machine(program(out(WATCHDOG, 1), out(WATCHDOG, 0), code(SLEEP, 0, 0)));
         pass(x, 3000);
         dueState("ended by OUT of 0", x, RESETS, 0);
+    }
+
+    /** All of the port's bits but 0 to 2, and all the cycles that a run can have. */
+    private static void lengthNoneNeverResets() {
+        int[] none = {0, 8, 0x80, 0xF8};
+        for (int v : none) {
+            TickController x = machine(program(out(WATCHDOG, v), code(SLEEP, 0, 0)));
+            for (int k = 0; k < 20; k++) {
+                pass(x, 3000);
+            }
+            dueState("port " + v, x, RESETS, 0);
+            dueState("port " + v, x, MODE, ASLEEP);
+            duePort("port " + v, x, WATCHDOG, v);
+        }
+    }
+
+    private static void lengthNoneAfterAlmostAll() {
+        TickController x = new TimedProgram().out(1, WATCHDOG, 1).out(32, WATCHDOG, 0).sleeping();
+        pass(x, 3000);
+        dueState("0 in the 32nd cycle", x, RESETS, 0);
+        TickController y = new TimedProgram().out(1, WATCHDOG, 1).out(33, WATCHDOG, 0).sleeping();
+        pass(y, 33);
+        dueState("0 in the 33rd cycle", y, RESETS, 1);
+    }
+
+    private static void wdrAfterLengthNone() {
+        TickController x = new TimedProgram().out(1, WATCHDOG, 1).out(5, WATCHDOG, 0).at(9, WDR, 0, 0).sleeping();
+        pass(x, 3000);
+        dueState("WDR after 0", x, RESETS, 0);
+    }
+
+    /** The time begins anew with the length that is written last, be it longer or shorter. */
+    private static void lengthWrittenAnewCounts() {
+        for (int first = 1; first <= 7; first++) {
+            for (int second = 1; second <= 7; second++) {
+                TickController x = new TimedProgram().out(1, WATCHDOG, first).out(30, WATCHDOG, second).sleeping();
+                pass(x, 30 + (16 << second) - 1);
+                dueState(first + ", then " + second + ", a cycle before", x, RESETS, 0);
+                pass(x, 1);
+                dueState(first + ", then " + second, x, RESETS, 1);
+            }
+        }
+    }
+
+    /** "If I is 0 then it sleeps until the watchdog": an enabled interrupt that is pending doesn't wake it. */
+    private static void sleepsUntilTheWatchdog() {
+        TickController x = machine(program(out(WATCHDOG, 7), out(SERIAL_CONTROL, 8), code(SLEEP, 0, 0)));
+        x.vector(4, 30);
+        x.receive(1);
+        pass(x, 1 + 2047);
+        dueState("a cycle before", x, MODE, ASLEEP);
+        dueState("a cycle before", x, PC, 5);
+        duePort("a cycle before", x, PENDING, 16);
+        pass(x, 1);
+        dueState("the watchdog", x, MODE, RUNNING);
+        dueState("the watchdog", x, PC, 0);
+        dueState("the watchdog", x, TAKEN, 0);
+        duePort("the watchdog", x, PENDING, 0);
+        pass(x, 1);
+        dueState("it goes on at 0", x, PC, 1);
+    }
+
+    private static void resetsAgainAndAgain() {
+        TickController x = machine(program(out(WATCHDOG, 1), code(SLEEP, 0, 0)));
+        for (int k = 1; k <= 40; k++) {
+            pass(x, 33);
+            dueState("reset number " + k, x, RESETS, k);
+            dueState("reset number " + k, x, PC, 0);
+        }
+        dueState("forty resets", x, TIME, 40 * 33);
+    }
+
+    /** Each port by itself, so that none of them hides behind another one. */
+    private static void resetOfEachPort() {
+        int[] written = {A_COUNT, A_CONTROL, A_COMPARE, B_COUNT, B_CONTROL, B_COMPARE, SERIAL_DATA, SERIAL_CONTROL,
+            DIVIDER, CONVERTER, STORE_ADDRESS, STORE_DATA, STORE_CONTROL, MASK};
+        for (int p : written) {
+            TickController x = machine(program(out(WATCHDOG, 1), out(p, 0xDC), code(SLEEP, 0, 0)));
+            pass(x, 33);
+            dueState("port " + p + " written, then reset", x, RESETS, 1);
+            duePortsAsAtPower("port " + p + " written, then reset", x);
+            duePort("port " + p + " written, then reset", x, STORE_DATA, 0);
+            duePort("port " + p + " written, then reset", x, OUTPUT, 0);
+        }
     }
 
     private static void wdrWithoutAWatchdog() {
