@@ -109,6 +109,13 @@ final class HaltTest extends TestBase {
         due("CALL without end", x.run(1000), 3 * FULL);
         dueHaltAt("CALL without end", x, 0, 3 * FULL);
         dueState("CALL without end", x, DEPTH, FULL);
+        TickController y = machine(CALL, 0, 1, CALL, 0, 0);
+        pass(y, 3 * FULL);
+        dueState("sixteen calls", y, DEPTH, FULL);
+        dueState("sixteen calls", y, MODE, RUNNING);
+        due("the seventeenth call", y.run(1000), 0);
+        dueHaltAt("the seventeenth call", y, 0, 3 * FULL);
+        dueState("the seventeenth call", y, DEPTH, FULL);
     }
 
     /** The stack is full, reception and pins are enabled and I is 1 when it comes to the instruction at 8. */

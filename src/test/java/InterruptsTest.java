@@ -9,6 +9,7 @@ final class InterruptsTest extends TestBase {
         theLeastComesFirst();
         allNineInOrder();
         aLesserOneThatIsNotEnabledWaits();
+        otherBitsEnableNothing();
         notInsideAHandler();
         nextOneRightAfterReti();
         clearedOneIsNotTaken();
@@ -162,6 +163,35 @@ final class InterruptsTest extends TestBase {
         pass(x, 8 * 6 + 20);
         dueState("all but 0", x, TAKEN, 8);
         duePort("all but 0", x, PENDING, 1);
+    }
+
+    /** All nine are pending; the ports' bits are all set, but for those that enable and those that start a timer. */
+    private static void otherBitsEnableNothing() {
+        int[] port = {A_CONTROL, A_CONTROL, B_CONTROL, B_CONTROL, SERIAL_CONTROL, SERIAL_CONTROL, CONVERTER,
+            STORE_CONTROL, MASK};
+        int[] bit = {8, 16, 8, 16, 8, 16, 8, 8, 1};
+        for (int k = -1; k <= 8; k++) {
+            TimedProgram program = new TimedProgram().out(1, CONVERTER, 4).out(3, STORE_DATA, 1)
+                    .out(5, SERIAL_DATA, 1).out(7, A_COUNT, 255).out(9, B_COUNT, 255).out(11, A_CONTROL, 1)
+                    .out(13, B_CONTROL, 1).out(15, MASK, 255);
+            int[] written = {A_CONTROL, B_CONTROL, SERIAL_CONTROL, CONVERTER, STORE_CONTROL, MASK};
+            int[] values = {0xE4, 0xE4, 0xE7, 0xF3, 0xF7, 0};
+            for (int p = 0; p < written.length; p++) {
+                int enabling = k >= 0 && port[k] == written[p] ? bit[k] : 0;
+                program.out(61 + 2 * p, written[p], values[p] + enabling);
+            }
+            TickController x = program.at(73, SEI, 0, 0).sleeping();
+            x.vector(k, 40);
+            pass(x, 21);
+            x.pins(1);
+            x.receive(1);
+            pass(x, 74 - 21);
+            duePort("all are pending", x, PENDING, 255);
+            x.run(3);
+            dueState("enabled: " + k, x, TAKEN, k < 0 ? 0 : 1);
+            dueState("enabled: " + k, x, MODE, k < 0 ? ASLEEP : RUNNING);
+            duePort("enabled: " + k, x, PENDING, k < 0 || k == 8 ? 255 : 255 - (1 << k));
+        }
     }
 
     private static void notInsideAHandler() {

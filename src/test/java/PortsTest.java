@@ -7,7 +7,9 @@ final class PortsTest extends TestBase {
         inputPinsAreNotWritten();
         timeIsNotWritten();
         nothingAboveNineteenIsWritten();
+        outChangesNoOtherPort();
         portsAboveNineteen();
+        portsAboveNineteenShowNoOther();
         pendingPort();
         pendingPortLeavesEight();
         pendingPortWithoutBits();
@@ -112,6 +114,53 @@ final class PortsTest extends TestBase {
         }
     }
 
+    /** Next to no port is as at power when T is 99, and no timer runs. */
+    private static TickController beforeOut(int p, int value) {
+        TickController x = new TimedProgram().out(1, CONVERTER, 4 + 2).out(3, STORE_ADDRESS, 9)
+                .out(5, STORE_DATA, 0x5A).out(7, A_COUNT, 0x11).out(9, A_COMPARE, 0x22).out(11, B_COUNT, 0x33)
+                .out(13, B_COMPARE, 0x44).out(15, DIVIDER, 0x66).out(17, MASK, 0x77).out(19, OUTPUT, 0x88)
+                .out(21, SERIAL_CONTROL, 8).out(99, p, value).sleeping();
+        x.analog(2, 0x99);
+        x.pins(0xAA);
+        x.receive(0xBB);
+        pass(x, 99);
+        duePort("before OUT to " + p, x, STORE_DATA, 0x5A);
+        duePort("before OUT to " + p, x, RESULT, 0x99);
+        return x;
+    }
+
+    /** Beside the port itself: OUT of the store's address shows another byte, OUT of both datas begins work. */
+    private static boolean mayChange(int port, int written) {
+        return port == written || port == CLOCK
+                || (written == STORE_ADDRESS && port == STORE_DATA)
+                || (written == STORE_DATA && port == STORE_CONTROL)
+                || (written == SERIAL_DATA && port == SERIAL_CONTROL);
+    }
+
+    private static void outChangesNoOtherPort() {
+        int[] values = {0, 0x18, 0xA8, 0xFC};
+        for (int p = 0; p < 32; p++) {
+            for (int value : values) {
+                TickController x = beforeOut(p, value);
+                int[] before = new int[20];
+                for (int q = 0; q < 20; q++) {
+                    before[q] = x.port(q);
+                }
+                int edges = x.state(EDGES);
+                pass(x, 1);
+                for (int q = 0; q < 20; q++) {
+                    if (!mayChange(q, p)) {
+                        duePort("OUT of " + value + " to " + p, x, q, before[q]);
+                    }
+                }
+                dueState("OUT of " + value + " to " + p, x, TAKEN, 0);
+                dueState("OUT of " + value + " to " + p, x, FLAGS, 0);
+                dueState("OUT of " + value + " to " + p, x, EDGES,
+                        edges + (p == OUTPUT ? Integer.bitCount(before[OUTPUT] ^ value) : 0));
+            }
+        }
+    }
+
     private static void portsAboveNineteen() {
         for (int p = 20; p < 32; p++) {
             TickController x = machine(LDI, 0, 255, OUT, 0, p, IN, 0, p);
@@ -120,6 +169,21 @@ final class PortsTest extends TestBase {
             duePort("OUT to " + p, x, OUTPUT, 0);
             pass(x, 1);
             dueRegister("IN of " + p, x, 0, 0);
+        }
+    }
+
+    private static void portsAboveNineteenShowNoOther() {
+        for (int p = 20; p < 32; p++) {
+            TickController x = new TimedProgram().out(1, A_COUNT, 0x11).out(3, A_CONTROL, 0x24).out(5, A_COMPARE, 0x22)
+                    .out(7, B_COUNT, 0x33).out(9, B_CONTROL, 0x24).out(11, B_COMPARE, 0x44).out(13, DIVIDER, 0x66)
+                    .out(15, SERIAL_CONTROL, 24).out(17, CONVERTER, 0xF3).out(19, OUTPUT, 0x88).out(21, WATCHDOG, 0xF8)
+                    .out(23, STORE_ADDRESS, 9).out(25, MASK, 0x77).at(26, LDI, 1, 99).at(27, IN, 1, p).sleeping();
+            x.pins(0xAA);
+            x.receive(0xBB);
+            pass(x, 27);
+            dueRegister("before IN of " + p, x, 1, 99);
+            pass(x, 1);
+            dueRegister("IN of " + p, x, 1, 0);
         }
     }
 

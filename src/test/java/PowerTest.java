@@ -13,6 +13,7 @@ final class PowerTest extends TestBase {
         powerWhileStoringStoresNothing();
         powerKeepsTheWholeStore();
         powerKeepsEachAnalogValue();
+        powerKeepsEachVector();
         powerForgetsEachByteOnTheLine();
         end();
     }
@@ -177,6 +178,16 @@ final class PowerTest extends TestBase {
             x.power();
             pass(x, 53);
             duePort("channel " + c + " after power", x, RESULT, 90 + c);
+        }
+    }
+
+    private static void powerKeepsEachVector() {
+        for (int k = 0; k <= 8; k++) {
+            TickController x = allPendingOneEnabled(k);
+            x.vector(k, 30 + k);
+            x.power();
+            takeTheOne(x);
+            dueState("vector " + k + " after power", x, PC, 30 + k);
         }
     }
 

@@ -14,6 +14,7 @@ final class SerialTest extends TestBase {
         controlReads();
         dataReads();
         zeroIfNoneWasEverReceived();
+        sentByteIsNotReceived();
         dataIsReadAgain();
         receivedZeroIsReceived();
         end();
@@ -177,6 +178,19 @@ final class SerialTest extends TestBase {
         y.power();
         pass(y, 1);
         dueRegister("none since power", y, 0, 0);
+    }
+
+    private static void sentByteIsNotReceived() {
+        TickController x = machine(program(out(SERIAL_DATA, 255), code(IN, 0, SERIAL_DATA, SLEEP, 0, 0)));
+        pass(x, 3);
+        dueRegister("none was received", x, 0, 0);
+        TickController y = machine(program(out(SERIAL_DATA, 255), code(IN, 0, SERIAL_DATA, SLEEP, 0, 0)));
+        y.receive(0x42);
+        pass(y, 2);
+        duePort("sending", y, SERIAL_CONTROL, 2);
+        duePort("sending", y, SERIAL_DATA, 0x42);
+        pass(y, 1);
+        dueRegister("another was received", y, 0, 0x42);
     }
 
     /** IN makes RECEIVED 0, but the byte received stays what it was. */

@@ -16,7 +16,7 @@ final class StackTest extends TestBase {
         end();
     }
 
-    /** Pushes 16, 15 and so on to 1, then adds up what comes back, each at its own place in memory. */
+    /** Pushes 16, 15 and so on to 1; what comes back goes to memory 16, 15 and so on. */
     private static void sixteenComeBackInOrder() {
         TickController x = machine(LDI, 0, FULL, PUSH, 0, 0, DJNZ, 0, 1, LDI, 0, FULL, POP, 1, 0, STX, 1, 0,
                 DJNZ, 0, 4, SLEEP, 0, 0);
@@ -28,7 +28,7 @@ final class StackTest extends TestBase {
         }
     }
 
-    /** Each instruction from 0 to 14 calls the next one but one; all that is left returns. */
+    /** The even instructions call the next even one; the odd ones return, but the first of them sleeps. */
     private static void sixteenCallsReturn() {
         TickController x = new TickController();
         for (int k = 0; k < FULL; k++) {

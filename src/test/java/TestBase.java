@@ -99,6 +99,25 @@ abstract class TestBase {
         return x;
     }
 
+    /** Timers make 0 to 3 pending, serial 4 and 5, converter 6, store 7, pins 8; then k is enabled, and I = 1. */
+    static TickController allPendingOneEnabled(int k) {
+        int[] ports = {A_CONTROL, A_CONTROL, B_CONTROL, B_CONTROL, SERIAL_CONTROL, SERIAL_CONTROL, CONVERTER,
+            STORE_CONTROL, MASK};
+        int[] bits = {8, 16, 8, 16, 8, 16, 8, 8, 1};
+        return machine(program(out(A_COUNT, 255), out(B_COUNT, 255), out(A_COMPARE, 1), out(B_COMPARE, 1),
+                out(SERIAL_DATA, 1), out(CONVERTER, 4), out(STORE_DATA, 1), out(MASK, 1), out(A_CONTROL, 1),
+                out(B_CONTROL, 1), code(DJNZ, 0, 20), out(MASK, 0), out(ports[k], bits[k]),
+                code(SEI, 0, 0, JMP, 0, 26)));
+    }
+
+    /** 511 cycles of DJNZ, five instructions and the interrupt. */
+    static void takeTheOne(TickController x) {
+        pass(x, 20);
+        x.pins(1);
+        x.receive(1);
+        pass(x, 511 + 5 + 3);
+    }
+
     /** Lets n cycles pass, which must be exactly so many. */
     static void pass(TickController x, int n) {
         due("run(" + n + ")", x.run(n), n);
