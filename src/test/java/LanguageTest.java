@@ -11,6 +11,8 @@ import java.util.HashSet;
 import java.util.Map;
 import java.util.Set;
 import java.util.TreeSet;
+import java.util.regex.Matcher;
+import java.util.regex.Pattern;
 import javax.tools.JavaCompiler;
 import javax.tools.ToolProvider;
 
@@ -28,6 +30,11 @@ final class LanguageTest extends TestBase {
             Tree.Kind.INTERFACE, Tree.Kind.ENUM, Tree.Kind.RECORD);
     private static final Set<String> TYPES = Set.of("int", "long", "short", "byte", "char", "boolean", "int[]",
             "long[]", "short[]", "byte[]", "char[]", "boolean[]");
+
+    private static final Set<String> NUMBERS = Set.of("int", "long", "short", "byte", "char");
+    private static final Set<Tree.Kind> CONSTANT = EnumSet.of(Tree.Kind.INT_LITERAL, Tree.Kind.LONG_LITERAL,
+            Tree.Kind.IDENTIFIER, Tree.Kind.PARENTHESIZED, Tree.Kind.PLUS, Tree.Kind.MINUS, Tree.Kind.MULTIPLY,
+            Tree.Kind.LEFT_SHIFT, Tree.Kind.UNARY_MINUS);
 
     private static final int SOME_FORTY = 44, SOME_SIXTY = 66;
 
@@ -70,8 +77,10 @@ final class LanguageTest extends TestBase {
         due("rule 1: no other constructor", TickController.class.getDeclaredConstructors().length, 1);
         for (var f : TickController.class.getDeclaredFields()) {
             due("rule 1: private " + f.getName(), Modifier.isPrivate(f.getModifiers()), true);
-            boolean constant = Modifier.isFinal(f.getModifiers()) && !f.getType().isArray();
+            boolean isFinal = Modifier.isFinal(f.getModifiers());
+            boolean constant = isFinal && (f.getType() == int.class || f.getType() == long.class);
             due("rule 5: static " + f.getName(), !Modifier.isStatic(f.getModifiers()) || constant, true);
+            due("rule 4: no method assigns to " + f.getName(), isFinal || !f.getType().isArray(), true);
         }
     }
 
@@ -119,6 +128,8 @@ final class LanguageTest extends TestBase {
         public Void visitMethod(MethodTree tree, Void none) {
             method = tree.getName().toString();
             calls.put(method, new HashSet<>());
+            String answer = String.valueOf(tree.getReturnType());
+            due("rule 4: " + method + " answers " + answer, answer.contains("["), false);
             due("rule 10: parameters of " + method, tree.getParameters().size() <= 7, true);
             String text = tree.getBody().toString();
             due("rule 10: length of " + method, text.lines().count() <= SOME_SIXTY, true);
@@ -132,6 +143,7 @@ final class LanguageTest extends TestBase {
             due("rule 2: type of " + tree.getName(), TYPES.contains(tree.getType().toString()), true);
             boolean constant = tree.getModifiers().getFlags().contains(javax.lang.model.element.Modifier.STATIC);
             fields += method.isEmpty() && !constant ? 1 : 0;
+            due("rule 5: value of " + tree.getName(), !constant || isConstant(tree.getInitializer()), true);
             return super.visitVariable(tree, none);
         }
 
@@ -139,7 +151,72 @@ final class LanguageTest extends TestBase {
         public Void visitNewArray(NewArrayTree tree, Void none) {
             due("rule 4: array made in " + method, method.isEmpty() || method.equals("<init>"), true);
             due("rule 4: one dimension", tree.getDimensions().size(), 1);
+            due("rule 4: length " + tree.getDimensions(), isConstant(tree.getDimensions().get(0)), true);
             return super.visitNewArray(tree, none);
+        }
+
+        /** Names in capitals are those of constants here. */
+        private static boolean isConstant(ExpressionTree tree) {
+            Boolean all = new TreeScanner<Boolean, Void>() {
+                @Override
+                public Boolean scan(Tree part, Void none) {
+                    boolean fits = part == null || CONSTANT.contains(part.getKind())
+                            && (part.getKind() != Tree.Kind.IDENTIFIER || part.toString().matches("[A-Z_]+"));
+                    return fits && super.scan(part, none) != Boolean.FALSE;
+                }
+
+                @Override
+                public Boolean reduce(Boolean one, Boolean other) {
+                    return one != Boolean.FALSE && other != Boolean.FALSE;
+                }
+            }.scan(tree, null);
+            return all;
+        }
+
+        @Override
+        public Void visitTypeCast(TypeCastTree tree, Void none) {
+            due("rule 6: cast to " + tree.getType(), NUMBERS.contains(tree.getType().toString()), true);
+            return super.visitTypeCast(tree, none);
+        }
+
+        @Override
+        public Void visitBinary(BinaryTree tree, Void none) {
+            boolean divides = tree.getKind() == Tree.Kind.DIVIDE || tree.getKind() == Tree.Kind.REMAINDER;
+            due("rule 7: divisor of " + tree, !divides || tree.getRightOperand().toString().matches("[1-9]\\d*"), true);
+            return super.visitBinary(tree, none);
+        }
+
+        @Override
+        public Void visitCompoundAssignment(CompoundAssignmentTree tree, Void none) {
+            boolean divides = tree.getKind() == Tree.Kind.DIVIDE_ASSIGNMENT
+                    || tree.getKind() == Tree.Kind.REMAINDER_ASSIGNMENT;
+            due("rule 7: divisor of " + tree, divides, false);
+            return super.visitCompoundAssignment(tree, none);
+        }
+
+        @Override
+        public Void visitForLoop(ForLoopTree tree, Void none) {
+            dueEnd(tree.getCondition(), tree.getUpdate().toString());
+            return super.visitForLoop(tree, none);
+        }
+
+        @Override
+        public Void visitWhileLoop(WhileLoopTree tree, Void none) {
+            dueEnd(tree.getCondition(), tree.getStatement().toString());
+            return super.visitWhileLoop(tree, none);
+        }
+
+        @Override
+        public Void visitDoWhileLoop(DoWhileLoopTree tree, Void none) {
+            dueEnd(tree.getCondition(), tree.getStatement().toString());
+            return super.visitDoWhileLoop(tree, none);
+        }
+
+        /** The condition is, or begins with, a counter below a bound, and the counter goes up. */
+        private static void dueEnd(ExpressionTree condition, String steps) {
+            Matcher counter = Pattern.compile("\\(?(\\w+) < [^|]*").matcher(String.valueOf(condition));
+            boolean ends = counter.matches() && steps.contains(counter.group(1) + "++");
+            due("rule 8: end of the loop " + condition, ends, true);
         }
 
         /** Of what has a dot, only an array's length and the object's own members are within rule 3. */

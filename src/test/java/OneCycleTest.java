@@ -26,18 +26,6 @@ final class OneCycleTest extends TestBase {
         end();
     }
 
-    private static int count(int timer) {
-        return 3 * timer;
-    }
-
-    private static int equalBit(int timer) {
-        return timer == 0 ? 1 : 4;
-    }
-
-    private static int overflowBit(int timer) {
-        return timer == 0 ? 2 : 8;
-    }
-
     private static void controlTicksInItsOwnCycle(int timer) {
         TickController x = machine(out(count(timer) + 1, 1));
         pass(x, 1);

@@ -87,6 +87,20 @@ abstract class TestBase {
         return instructions;
     }
 
+    /** The port of a timer's count (0 is A, 1 is B); control and compare are the two after it. */
+    static int count(int timer) {
+        return 3 * timer;
+    }
+
+    /** The bit in PENDING of the interrupt that comes when count and compare value become equal. */
+    static int equalBit(int timer) {
+        return timer == 0 ? 1 : 4;
+    }
+
+    static int overflowBit(int timer) {
+        return timer == 0 ? 2 : 8;
+    }
+
     /** Puts 1 into a port, then 2, with so many cycles between the two OUTs, and lets 100 cycles pass. */
     static TickController outTwice(int port, int between) {
         TickController x = machine(LDI, 0, 1, OUT, 0, port);

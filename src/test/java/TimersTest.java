@@ -31,18 +31,6 @@ final class TimersTest extends TestBase {
         end();
     }
 
-    private static int count(int timer) {
-        return 3 * timer;
-    }
-
-    private static int equalBit(int timer) {
-        return timer == 0 ? 1 : 4;
-    }
-
-    private static int overflowBit(int timer) {
-        return timer == 0 ? 2 : 8;
-    }
-
     /** Sets the timer up and sleeps; the first tick of a timer with prescaler 1 comes at T = 6. */
     private static TickController timed(int timer, int count, int compare, int control) {
         TickController x = machine(program(out(count(timer), count), out(count(timer) + 2, compare),
